@@ -1,0 +1,2179 @@
+import java.util.Arrays;
+
+/**
+ * A mine in which dark is mined: a seam of cells, a shaft, miners who dig by a plan, light that
+ * spoils what lies beside it, orders that are paid for tubs. The mine is told as a text on a tape.
+ */
+public final class DarkMine {
+    public static final int NONE = -1;
+
+    private static final int TAPE_MOST = 1600;
+    private static final int FEED_BYTES = 20;
+    private static final int STATEMENTS_MOST = 80;
+    private static final int MINERS_MOST = 6;
+    private static final int PLAN_MOST = 16;
+    private static final int ORDERS_MOST = 5;
+    private static final int NAME_LETTERS = 6;
+    private static final int GRADE_MOST = 9;
+    private static final int GRADES = 10;
+    private static final int TUBS_MOST = 99;
+    private static final int SHIFT_LAST = 999;
+    private static final int PURSE_MOST = 99999;
+    private static final int REACH_MOST = 20;
+    private static final int AHEAD_MOST = 40;
+    private static final int TRIAL_MOST = 20;
+    private static final int FEEL_AHEAD_MOST = 30;
+    private static final int FELT_MOST = 16;
+    private static final int FELT_BYTES = 4;
+    private static final int KEPT_MOST = 40;
+    private static final int KEPT_PARTS = 4;
+    private static final int ACTS_MOST = 20;
+    private static final int IMAGE_MOST = 124;
+
+    /* What stands at a place: 0 to 9 is the GRADE of a SOLID CELL; the others are as in AN IMAGE. */
+    private static final int OPEN = 255;
+    private static final int CURTAINED = 254;
+    private static final int WALL = 100;
+
+    /*
+     * A place is 8 times (row + 1) and the column. A seam has 7 columns and rows at most, so that
+     * column 7 and the rows ahead of the first and behind the last one are WALL: each step from a
+     * CELL to a side stays among the places.
+     */
+    private static final int PLACES = 72;
+    private static final int PLACE_OF_FIRST = 8;
+    private static final int[] SIDES = {-8, -1, 1, 8};
+
+    private static final int SPOILS = 0;
+    private static final int FALLS = 1;
+    private static final int GETS = 2;
+    private static final int RULES = 3;
+
+    /* Steps of a rule, behind what they work on; a step of 0 or more is a number itself. */
+    private static final int STEP_GRADE = -1;
+    private static final int STEP_DEPTH = -2;
+    private static final int STEP_SHIFT = -3;
+    private static final int STEP_FAR = -4;
+    private static final int STEP_OPEN = -5;
+    private static final int STEP_LIT = -6;
+    private static final int STEP_ALL = -7;
+    private static final int STEP_NOT = -8;
+    private static final int STEP_CHOOSE = -9;
+    private static final int STEP_ADD = -10;
+    private static final int STEP_LESSEN = -11;
+    private static final int STEP_TIMES = -12;
+    private static final int STEP_DIVIDE = -13;
+    private static final int STEP_REST = -14;
+    private static final int STEP_MIN = -15;
+    private static final int STEP_MAX = -16;
+    private static final int STEP_BELOW = -17;
+    private static final int STEP_ABOVE = -18;
+    private static final int STEP_LIKE = -19;
+    private static final int STEP_AND = -20;
+    private static final int STEP_OR = -21;
+
+    private final Tape tape = new Tape();
+    private final Reader reader = new Reader();
+    private final Works works = new Works();
+    private final Foresight foresight = new Foresight(works);
+    private final Feeling feeling = new Feeling(works);
+    private final Pit pit = new Pit();
+    private final Pit trial = new Pit();
+    private final Kept log = new Kept();
+    private final History history = new History();
+    private final Image picture = new Image();
+    private final int[] refusals = new int[6];
+    private Ground ground = new Ground();
+    private Ground spareGround = new Ground();
+    private int drawn = 1;
+
+    public DarkMine() {
+        pit.begin(ground);
+    }
+
+    public int feed(int a, int b, int c, int d, int e) {
+        if (tape.length + FEED_BYTES > TAPE_MOST) {
+            return none(0);
+        }
+        tape.put(a);
+        tape.put(b);
+        tape.put(c);
+        tape.put(d);
+        tape.put(e);
+        return tape.length;
+    }
+
+    public boolean end(int n) {
+        if (n < 0 || n > tape.length) {
+            return no(0);
+        }
+        tape.length = n;
+        return true;
+    }
+
+    public int mine() {
+        int statements = reader.read(tape, spareGround);
+        tape.length = 0;
+        if (statements == NONE) {
+            return none(1);
+        }
+        Ground told = spareGround;
+        spareGround = ground;
+        ground = told;
+        pit.begin(ground);
+        log.count = 0;
+        history.count = 0;
+        feeling.count = 0;
+        forgetTrials();
+        return statements;
+    }
+
+    public int fault(int what) {
+        if (what == 0) {
+            return reader.fault;
+        }
+        return what == 1 ? reader.faultAt : NONE;
+    }
+
+    public int has(int what) {
+        switch (what) {
+            case 0: return ground.columns;
+            case 1: return ground.rows;
+            case 2: return ground.miners;
+            case 3: return ground.planRows;
+            case 4: return ground.orders;
+            case 5: return pit.shift;
+            case 6: return countOpen();
+            case 7: return countLit();
+            case 8: return countCurtains();
+            case 9: return countHurt();
+            case 10: return pit.tubsFrom(0);
+            case 11: return pit.purse;
+            case 12: return pit.wholeWorth();
+            case 13: return log.count;
+            case 14: return feeling.count;
+            case 15: return history.count;
+            case 16: return drawn;
+            default: return NONE;
+        }
+    }
+
+    public int letter(int kind, int which, int k) {
+        if (kind == 0) {
+            return which >= 0 && which < ground.miners ? letterOf(ground.minerNames[which], k) : NONE;
+        }
+        if (kind == 1) {
+            return which >= 0 && which < ground.orders ? letterOf(ground.orderNames[which], k) : NONE;
+        }
+        return NONE;
+    }
+
+    public int cell(int column, int row, int what) {
+        int place = ground.placeOf(column, row);
+        if (place == NONE) {
+            return NONE;
+        }
+        works.enter(ground, pit, ground.reach);
+        switch (what) {
+            case 0: return pit.gradeAt(place);
+            case 1: return flag(pit.isOpen(place));
+            case 2: return flag(works.isLit(place));
+            case 3: return flag(pit.cells[place] == CURTAINED);
+            case 4: return works.farOf(place);
+            case 5: return flag(works.isSafe(place));
+            default: return NONE;
+        }
+    }
+
+    public int hurt(int miner) {
+        return ground.hasMiner(miner) ? pit.hurts[miner] : NONE;
+    }
+
+    public int plan(int k, int what) {
+        if (!ground.hasPlanRow(k)) {
+            return NONE;
+        }
+        switch (what) {
+            case 0: return pit.planMiners[k];
+            case 1: return columnOf(pit.planPlaces[k]);
+            case 2: return rowOf(pit.planPlaces[k]);
+            default: return NONE;
+        }
+    }
+
+    public int order(int order, int what) {
+        if (!ground.hasOrder(order)) {
+            return NONE;
+        }
+        switch (what) {
+            case 0: return ground.orderGrades[order];
+            case 1: return ground.orderTubs[order];
+            case 2: return ground.orderPays[order];
+            case 3: return pit.sold[order];
+            case 4: return flag(canBeSold(order));
+            default: return NONE;
+        }
+    }
+
+    public int tubs(int grade) {
+        return grade >= 0 && grade <= GRADE_MOST ? pit.tubCounts[grade] : NONE;
+    }
+
+    public int later(int column, int row, int n) {
+        int place = ground.placeOf(column, row);
+        if (place == NONE || !shiftsCome(0, n, AHEAD_MOST)) {
+            return NONE;
+        }
+        lookAhead(n);
+        return trial.gradeAt(place);
+    }
+
+    public int opens(int column, int row) {
+        int place = ground.placeOf(column, row);
+        if (place == NONE) {
+            return NONE;
+        }
+        lookAhead(0);
+        int most = Math.min(AHEAD_MOST, SHIFT_LAST - pit.shift);
+        for (int n = 0; n <= most; n++) {
+            if (trial.isOpen(place)) {
+                return n;
+            }
+            works.passShift();
+        }
+        return NONE;
+    }
+
+    public int worth(int n) {
+        if (!shiftsCome(0, n, AHEAD_MOST)) {
+            return NONE;
+        }
+        lookAhead(n);
+        return trial.wholeWorth();
+    }
+
+    public int shade(int n, int what) {
+        if (!shiftsCome(1, n, TRIAL_MOST)) {
+            return NONE;
+        }
+        foresight.seekShade(ground, pit, n);
+        if (foresight.shadePlace == NONE) {
+            return NONE;
+        }
+        switch (what) {
+            case 0: return columnOf(foresight.shadePlace);
+            case 1: return rowOf(foresight.shadePlace);
+            case 2: return foresight.shadeWorth;
+            default: return NONE;
+        }
+    }
+
+    public int change(int n, int what) {
+        if (!shiftsCome(1, n, TRIAL_MOST)) {
+            return NONE;
+        }
+        foresight.seekChange(ground, pit, n);
+        if (foresight.changeRow == NONE) {
+            return NONE;
+        }
+        switch (what) {
+            case 0: return foresight.changeRow;
+            case 1: return foresight.changeOther;
+            case 2: return foresight.changeGrades;
+            default: return NONE;
+        }
+    }
+
+    public int sale(int what) {
+        if (what != 0 && what != 1) {
+            return NONE;
+        }
+        int best = 0;
+        for (int set = 1; set < 1 << ground.orders; set++) {
+            if (canAllBeSold(set) && isBetterSale(set, best)) {
+                best = set;
+            }
+        }
+        return what == 0 ? best : paidFor(best);
+    }
+
+    public int odds(int column, int row) {
+        if (!shiftsCome(1, 1, 1)) {
+            return NONE;
+        }
+        if (column == NONE) {
+            return 100 * ground.columns * ground.rows;
+        }
+        int place = ground.placeOf(column, row);
+        return place == NONE ? NONE : foresight.oddsOf(ground, pit, place);
+    }
+
+    public int feel() {
+        boolean taken = feeling.take(ground, tape);
+        tape.length = 0;
+        return taken ? feeling.count : none(5);
+    }
+
+    public int reaches() {
+        return ground.hasSeam() ? feeling.reachBits(ground, pit) : NONE;
+    }
+
+    public int tells(int what) {
+        if (!shiftsCome(1, 1, 1)) {
+            return NONE;
+        }
+        feeling.seekTelling(ground, pit);
+        if (feeling.tellingPlace == NONE) {
+            return NONE;
+        }
+        switch (what) {
+            case 0: return feeling.tellingShifts;
+            case 1: return feeling.tellingPlace - PLACE_OF_FIRST;
+            case 2: return feeling.tellingLeft;
+            default: return NONE;
+        }
+    }
+
+    public int shifts(int n) {
+        if (!shiftsCome(1, n, AHEAD_MOST)) {
+            return none(2);
+        }
+        beginAct();
+        works.enter(ground, pit, ground.reach);
+        int got = 0;
+        for (int k = 0; k < n; k++) {
+            got += passAndKeep();
+        }
+        return got;
+    }
+
+    public int chance(int n) {
+        if (!shiftsCome(1, n, AHEAD_MOST)) {
+            return none(2);
+        }
+        beginAct();
+        works.enter(ground, pit, ground.reach);
+        int closed = 0;
+        for (int k = 0; k < n; k++) {
+            closed += flag(quakeCloses());
+            passAndKeep();
+        }
+        return closed;
+    }
+
+    public boolean hang(int column, int row, int on) {
+        int place = ground.placeOf(column, row);
+        if (place == NONE || place == ground.shaftPlace() || on < 0 || on > 1) {
+            return no(3);
+        }
+        int ahead = on == 1 ? OPEN : CURTAINED;
+        if (pit.cells[place] != ahead) {
+            return no(3);
+        }
+        beginAct();
+        pit.cells[place] = on == 1 ? CURTAINED : OPEN;
+        return true;
+    }
+
+    public boolean send(int k, int miner, int column, int row) {
+        int place = ground.placeOf(column, row);
+        if (place == NONE || !ground.hasPlanRow(k) || !ground.hasMiner(miner)) {
+            return no(3);
+        }
+        if (pit.planMiners[k] == miner && pit.planPlaces[k] == place) {
+            return no(3);
+        }
+        beginAct();
+        pit.planMiners[k] = miner;
+        pit.planPlaces[k] = place;
+        return true;
+    }
+
+    public boolean heal(int miner) {
+        if (!ground.hasMiner(miner) || pit.hurts[miner] == 0) {
+            return no(3);
+        }
+        beginAct();
+        pit.hurts[miner] = 0;
+        return true;
+    }
+
+    public int sell(int order) {
+        if (!ground.hasOrder(order) || !canBeSold(order)) {
+            return none(3);
+        }
+        beginAct();
+        pit.giveTubs(ground.orderGrades[order], ground.orderTubs[order]);
+        pit.sold[order] = 1;
+        pit.purse = Math.min(PURSE_MOST, pit.purse + ground.orderPays[order]);
+        return pit.purse;
+    }
+
+    public boolean undo() {
+        if (!history.takeBack(pit, log)) {
+            return no(4);
+        }
+        forgetTrials();
+        return true;
+    }
+
+    public boolean seed(int seed) {
+        if (seed < 0) {
+            return no(5);
+        }
+        drawn = seed;
+        return true;
+    }
+
+    public int kept(int k, int what) {
+        if (k < 0 || k >= log.count || what < 0 || what >= KEPT_PARTS) {
+            return NONE;
+        }
+        return log.parts[KEPT_PARTS * k + what];
+    }
+
+    public int image() {
+        picture.write(ground, pit);
+        return picture.length;
+    }
+
+    public int octet(int k) {
+        return k >= 0 && k < picture.length ? picture.bytes[k] : NONE;
+    }
+
+    public boolean on() {
+        boolean told = ground.hasSeam() && picture.tellsPit(ground, tape, trial);
+        tape.length = 0;
+        if (!told) {
+            return no(5);
+        }
+        pit.copy(trial);
+        log.count = 0;
+        history.count = 0;
+        forgetTrials();
+        return true;
+    }
+
+    public int status(int what) {
+        return what >= 0 && what < refusals.length ? refusals[what] : NONE;
+    }
+
+    private int none(int refusal) {
+        refusals[refusal]++;
+        return NONE;
+    }
+
+    private boolean no(int refusal) {
+        refusals[refusal]++;
+        return false;
+    }
+
+    /** Ahead of each ACT: what it changes can be brought back, what was found ahead holds no more. */
+    private void beginAct() {
+        history.put(pit, log);
+        forgetTrials();
+    }
+
+    private void forgetTrials() {
+        foresight.forget();
+        feeling.forget();
+    }
+
+    private boolean shiftsCome(int least, int n, int most) {
+        return ground.hasSeam() && n >= least && n <= most && pit.shift + n <= SHIFT_LAST;
+    }
+
+    private void lookAhead(int n) {
+        trial.copy(pit);
+        works.enter(ground, trial, ground.reach);
+        works.passShifts(n);
+    }
+
+    /** One SHIFT of the pit itself: 1 if a tub was got, else 0. */
+    private int passAndKeep() {
+        int shift = pit.shift;
+        works.passShift();
+        if (works.dugMiner == NONE) {
+            return 0;
+        }
+        log.put(shift, works.dugMiner, works.dugPlace - PLACE_OF_FIRST, works.dugGrade);
+        return works.dugGrade == NONE ? 0 : 1;
+    }
+
+    private boolean quakeCloses() {
+        if (draw(100) >= ground.quake) {
+            return false;
+        }
+        int column = draw(ground.columns);
+        int row = draw(ground.rows);
+        return works.closeCell(ground.placeOf(column, row));
+    }
+
+    private int draw(int m) {
+        drawn = (int) ((1103515245L * drawn + 12345L) & 0x7fffffffL);
+        return m > 0 ? drawn / 64 % m : 0;
+    }
+
+    private int countOpen() {
+        int count = 0;
+        for (int place = 0; place < PLACES; place++) {
+            count += flag(pit.isOpen(place));
+        }
+        return count;
+    }
+
+    private int countLit() {
+        if (!ground.hasSeam()) {
+            return 0;
+        }
+        works.enter(ground, pit, ground.reach);
+        int count = 0;
+        for (int place = 0; place < PLACES; place++) {
+            count += flag(works.isLit(place));
+        }
+        return count;
+    }
+
+    private int countCurtains() {
+        int count = 0;
+        for (int place = 0; place < PLACES; place++) {
+            count += flag(pit.cells[place] == CURTAINED);
+        }
+        return count;
+    }
+
+    private int countHurt() {
+        int count = 0;
+        for (int miner = 0; miner < ground.miners; miner++) {
+            count += pit.hurts[miner];
+        }
+        return count;
+    }
+
+    private boolean canBeSold(int order) {
+        return pit.sold[order] == 0
+            && pit.tubsFrom(ground.orderGrades[order]) >= ground.orderTubs[order];
+    }
+
+    /**
+     * A tub is good for all ORDERS up to its GRADE. So the tubs are enough for a set if, from the
+     * GRADE of each ORDER of it on, there are as many as its ORDERS from there on want.
+     */
+    private boolean canAllBeSold(int set) {
+        for (int order = 0; order < ground.orders; order++) {
+            if ((set >> order & 1) == 0) {
+                continue;
+            }
+            int grade = ground.orderGrades[order];
+            if (pit.sold[order] == 1 || wantedFrom(set, grade) > pit.tubsFrom(grade)) {
+                return false;
+            }
+        }
+        return true;
+    }
+
+    private int wantedFrom(int set, int grade) {
+        int wanted = 0;
+        for (int order = 0; order < ground.orders; order++) {
+            if ((set >> order & 1) == 1 && ground.orderGrades[order] >= grade) {
+                wanted += ground.orderTubs[order];
+            }
+        }
+        return wanted;
+    }
+
+    private int paidFor(int set) {
+        int paid = 0;
+        for (int order = 0; order < ground.orders; order++) {
+            if ((set >> order & 1) == 1) {
+                paid += ground.orderPays[order];
+            }
+        }
+        return paid;
+    }
+
+    /** The sets come by rising bits: of like ones the earlier stays. */
+    private boolean isBetterSale(int set, int best) {
+        int more = paidFor(set) - paidFor(best);
+        return more > 0 || more == 0 && Integer.bitCount(set) < Integer.bitCount(best);
+    }
+
+    private static int flag(boolean holds) {
+        return holds ? 1 : 0;
+    }
+
+    private static int columnOf(int place) {
+        return place & 7;
+    }
+
+    private static int rowOf(int place) {
+        return (place >> 3) - 1;
+    }
+
+    /** A name is a number of six digits to the base 27, the first letter highest, 0 behind it. */
+    private static int letterOf(int name, int k) {
+        if (k < 0 || k >= NAME_LETTERS) {
+            return NONE;
+        }
+        int rest = name;
+        for (int behind = k + 1; behind < NAME_LETTERS; behind++) {
+            rest /= 27;
+        }
+        return rest % 27;
+    }
+
+    /** The bytes that were fed and not yet used. */
+    private static final class Tape {
+        final int[] bytes = new int[TAPE_MOST];
+        int length;
+
+        void put(int number) {
+            for (int shift = 24; shift >= 0 && length < TAPE_MOST; shift -= 8) {
+                bytes[length] = number >> shift & 255;
+                length++;
+            }
+        }
+    }
+
+    /** What a MINE's text tells, and no ACT changes. */
+    private static final class Ground {
+        int columns;
+        int rows;
+        int shaft;
+        int reach;
+        int quake;
+        final int[] grades = new int[PLACES];
+        int miners;
+        final int[] minerNames = new int[MINERS_MOST];
+        int planRows;
+        final int[] planMiners = new int[PLAN_MOST];
+        final int[] planPlaces = new int[PLAN_MOST];
+        int orders;
+        final int[] orderNames = new int[ORDERS_MOST];
+        final int[] orderGrades = new int[ORDERS_MOST];
+        final int[] orderTubs = new int[ORDERS_MOST];
+        final int[] orderPays = new int[ORDERS_MOST];
+        /* A text of so many bytes has no more words, numbers and signs, each of which is a step at most. */
+        final int[] steps = new int[TAPE_MOST];
+        final int[] ruleFrom = new int[RULES];
+        final int[] ruleEnd = new int[RULES];
+
+        void clear() {
+            columns = 0;
+            rows = 0;
+            shaft = 0;
+            reach = 3;
+            quake = 0;
+            Arrays.fill(grades, 5);
+            miners = 0;
+            planRows = 0;
+            orders = 0;
+            Arrays.fill(ruleFrom, 0);
+            Arrays.fill(ruleEnd, 0);
+        }
+
+        boolean hasSeam() {
+            return columns > 0;
+        }
+
+        boolean hasMiner(int miner) {
+            return miner >= 0 && miner < miners;
+        }
+
+        boolean hasPlanRow(int row) {
+            return row >= 0 && row < planRows;
+        }
+
+        boolean hasOrder(int order) {
+            return order >= 0 && order < orders;
+        }
+
+        boolean hasRule(int rule) {
+            return ruleEnd[rule] > ruleFrom[rule];
+        }
+
+        boolean hasName(int name) {
+            for (int order = 0; order < orders; order++) {
+                if (orderNames[order] == name) {
+                    return true;
+                }
+            }
+            return minerNamed(name) != NONE;
+        }
+
+        int minerNamed(int name) {
+            for (int miner = 0; miner < miners; miner++) {
+                if (minerNames[miner] == name) {
+                    return miner;
+                }
+            }
+            return NONE;
+        }
+
+        int placeOf(int column, int row) {
+            if (column < 0 || column >= columns || row < 0 || row >= rows) {
+                return NONE;
+            }
+            return 8 * row + column + PLACE_OF_FIRST;
+        }
+
+        int shaftPlace() {
+            return placeOf(shaft, 0);
+        }
+    }
+
+    /** All that ACTS change, but what is KEPT and the seed. */
+    private static final class Pit {
+        int shift;
+        int purse;
+        final int[] cells = new int[PLACES];
+        final int[] hurts = new int[MINERS_MOST];
+        final int[] planMiners = new int[PLAN_MOST];
+        final int[] planPlaces = new int[PLAN_MOST];
+        final int[] sold = new int[ORDERS_MOST];
+        final int[] tubCounts = new int[GRADES];
+
+        void begin(Ground ground) {
+            shift = 0;
+            purse = 0;
+            Arrays.fill(cells, WALL);
+            for (int row = 0; row < ground.rows; row++) {
+                for (int column = 0; column < ground.columns; column++) {
+                    int place = ground.placeOf(column, row);
+                    cells[place] = ground.grades[place];
+                }
+            }
+            if (ground.hasSeam()) {
+                cells[ground.shaftPlace()] = OPEN;
+            }
+            Arrays.fill(hurts, 0);
+            System.arraycopy(ground.planMiners, 0, planMiners, 0, PLAN_MOST);
+            System.arraycopy(ground.planPlaces, 0, planPlaces, 0, PLAN_MOST);
+            Arrays.fill(sold, 0);
+            Arrays.fill(tubCounts, 0);
+        }
+
+        void copy(Pit other) {
+            shift = other.shift;
+            purse = other.purse;
+            System.arraycopy(other.cells, 0, cells, 0, PLACES);
+            System.arraycopy(other.hurts, 0, hurts, 0, MINERS_MOST);
+            System.arraycopy(other.planMiners, 0, planMiners, 0, PLAN_MOST);
+            System.arraycopy(other.planPlaces, 0, planPlaces, 0, PLAN_MOST);
+            System.arraycopy(other.sold, 0, sold, 0, ORDERS_MOST);
+            System.arraycopy(other.tubCounts, 0, tubCounts, 0, GRADES);
+        }
+
+        boolean isOpen(int place) {
+            return cells[place] >= CURTAINED;
+        }
+
+        boolean isSolid(int place) {
+            return cells[place] <= GRADE_MOST;
+        }
+
+        int gradeAt(int place) {
+            return isSolid(place) ? cells[place] : NONE;
+        }
+
+        int openBeside(int place) {
+            int count = 0;
+            for (int side : SIDES) {
+                if (isOpen(place + side)) {
+                    count++;
+                }
+            }
+            return count;
+        }
+
+        boolean canBeDug(int place) {
+            return isSolid(place) && openBeside(place) > 0;
+        }
+
+        void addTub(int grade) {
+            tubCounts[grade] = Math.min(TUBS_MOST, tubCounts[grade] + 1);
+        }
+
+        int tubsFrom(int grade) {
+            int count = 0;
+            for (int g = grade; g <= GRADE_MOST; g++) {
+                count += tubCounts[g];
+            }
+            return count;
+        }
+
+        void giveTubs(int grade, int wanted) {
+            int left = wanted;
+            for (int g = grade; g <= GRADE_MOST; g++) {
+                int given = Math.min(left, tubCounts[g]);
+                tubCounts[g] -= given;
+                left -= given;
+            }
+        }
+
+        int tubGrades() {
+            int sum = 0;
+            for (int g = 0; g <= GRADE_MOST; g++) {
+                sum += g * tubCounts[g];
+            }
+            return sum;
+        }
+
+        int wholeWorth() {
+            int sum = tubGrades();
+            for (int place = 0; place < PLACES; place++) {
+                if (isSolid(place)) {
+                    sum += cells[place];
+                }
+            }
+            return sum;
+        }
+
+        void changeRows(int one, int other) {
+            int miner = planMiners[one];
+            int place = planPlaces[one];
+            planMiners[one] = planMiners[other];
+            planPlaces[one] = planPlaces[other];
+            planMiners[other] = miner;
+            planPlaces[other] = place;
+        }
+    }
+
+    /** Works out a rule for one CELL, of which its fields tell. */
+    private static final class Rules {
+        private static final int VALUE_MOST = 1000000;
+        /* Seven that are open at once, each with five values waiting at most, stay far below it. */
+        private static final int STACK_MOST = 64;
+
+        int grade;
+        int depth;
+        int shift;
+        int far;
+        int open;
+        int lit;
+        private final int[] stack = new int[STACK_MOST];
+        private int top;
+
+        int valueOf(Ground ground, int rule) {
+            top = 0;
+            int end = Math.min(ground.ruleEnd[rule], TAPE_MOST);
+            for (int k = ground.ruleFrom[rule]; k < end; k++) {
+                take(ground.steps[k]);
+            }
+            return pop();
+        }
+
+        private void take(int step) {
+            if (step >= STEP_ALL) {
+                push(step >= 0 ? step : fact(step));
+            } else if (step == STEP_NOT) {
+                push(1 - pop());
+            } else if (step == STEP_CHOOSE) {
+                int second = pop();
+                int first = pop();
+                push(pop() == 1 ? first : second);
+            } else {
+                int second = pop();
+                int first = pop();
+                push(result(step, first, second));
+            }
+        }
+
+        private void push(int value) {
+            if (top < STACK_MOST) {
+                stack[top] = value;
+                top++;
+            }
+        }
+
+        private int pop() {
+            if (top == 0) {
+                return 0;
+            }
+            top--;
+            return stack[top];
+        }
+
+        private int fact(int step) {
+            switch (step) {
+                case STEP_GRADE: return grade;
+                case STEP_DEPTH: return depth;
+                case STEP_SHIFT: return shift;
+                case STEP_FAR: return far;
+                case STEP_OPEN: return open;
+                case STEP_LIT: return lit;
+                default: return 1;
+            }
+        }
+
+        private static int result(int step, int a, int b) {
+            switch (step) {
+                case STEP_ADD: return bounded((long) a + b);
+                case STEP_LESSEN: return bounded((long) a - b);
+                case STEP_TIMES: return bounded((long) a * b);
+                case STEP_DIVIDE: return b == 0 ? 0 : bounded(Math.floorDiv(a, b));
+                case STEP_REST: return b == 0 ? 0 : Math.floorMod(a, b);
+                case STEP_MIN: return Math.min(a, b);
+                case STEP_MAX: return Math.max(a, b);
+                case STEP_BELOW: return a < b ? 1 : 0;
+                case STEP_ABOVE: return a > b ? 1 : 0;
+                case STEP_LIKE: return a == b ? 1 : 0;
+                case STEP_AND: return a & b;
+                default: return a | b;
+            }
+        }
+
+        private static int bounded(long value) {
+            return (int) Math.max(-VALUE_MOST, Math.min(VALUE_MOST, value));
+        }
+    }
+
+    /** Lets SHIFTS go by in a pit. */
+    private static final class Works {
+        private final Rules rules = new Rules();
+        private final int[] far = new int[PLACES];
+        private final int[] queue = new int[PLACES];
+        private Ground ground = null;
+        private Pit pit = null;
+        private int reach;
+        /* Whether far is no more what the pit's OPEN CELLS and curtains make it. */
+        private boolean stale;
+        /* The digging of the latest SHIFT: no MINER without one, no GRADE where the CELL fell. */
+        int dugMiner = NONE;
+        int dugPlace = NONE;
+        int dugGrade = NONE;
+
+        void enter(Ground newGround, Pit newPit, int newReach) {
+            ground = newGround;
+            pit = newPit;
+            reach = newReach;
+            stale = true;
+        }
+
+        boolean isLit(int place) {
+            int steps = farOf(place);
+            return steps != NONE && steps <= reach && pit.cells[place] == OPEN;
+        }
+
+        int farOf(int place) {
+            if (stale) {
+                spread();
+                stale = false;
+            }
+            return far[place];
+        }
+
+        boolean isSafe(int place) {
+            return pit.canBeDug(place) && !fallsAt(place);
+        }
+
+        /** Whether a quake at that CELL makes it SOLID: it does if it is OPEN and not the shaft's. */
+        boolean closeCell(int place) {
+            if (place == NONE || place == ground.shaftPlace() || !pit.isOpen(place)) {
+                return false;
+            }
+            pit.cells[place] = 0;
+            stale = true;
+            return true;
+        }
+
+        void passShifts(int n) {
+            for (int k = 0; k < n; k++) {
+                passShift();
+            }
+        }
+
+        void passShift() {
+            dugMiner = NONE;
+            digByPlan();
+            spoilBesideLight();
+            pit.shift = Math.min(SHIFT_LAST, pit.shift + 1);
+        }
+
+        private void spread() {
+            Arrays.fill(far, NONE);
+            int start = ground.shaftPlace();
+            if (start == NONE) {
+                return;
+            }
+            far[start] = 0;
+            queue[0] = start;
+            int known = 1;
+            for (int k = 0; k < known && k < PLACES; k++) {
+                known = spreadFrom(queue[k], known);
+            }
+        }
+
+        private int spreadFrom(int place, int known) {
+            if (pit.cells[place] == CURTAINED) {
+                return known;
+            }
+            int end = known;
+            for (int side : SIDES) {
+                int next = place + side;
+                if (far[next] == NONE && pit.isOpen(next)) {
+                    far[next] = far[place] + 1;
+                    queue[end] = next;
+                    end++;
+                }
+            }
+            return end;
+        }
+
+        private void digByPlan() {
+            if (ground.planRows == 0) {
+                return;
+            }
+            int row = pit.shift % ground.planRows;
+            int miner = pit.planMiners[row];
+            int place = pit.planPlaces[row];
+            if (pit.hurts[miner] == 1 || !pit.canBeDug(place)) {
+                return;
+            }
+            dugMiner = miner;
+            dugPlace = place;
+            if (fallsAt(place)) {
+                dugGrade = NONE;
+                pit.cells[place] = 0;
+                pit.hurts[miner] = 1;
+            } else {
+                dugGrade = gotAt(place);
+                pit.addTub(dugGrade);
+                pit.cells[place] = OPEN;
+                stale = true;
+            }
+        }
+
+        private boolean fallsAt(int place) {
+            if (!ground.hasRule(FALLS)) {
+                return false;
+            }
+            tellDigging(place);
+            return rules.valueOf(ground, FALLS) == 1;
+        }
+
+        private int gotAt(int place) {
+            if (!ground.hasRule(GETS)) {
+                return pit.cells[place];
+            }
+            tellDigging(place);
+            return Math.max(0, Math.min(GRADE_MOST, rules.valueOf(ground, GETS)));
+        }
+
+        private void tellDigging(int place) {
+            tellCell(place);
+            rules.open = pit.openBeside(place);
+            rules.lit = nearestLight(place) == NONE ? 0 : 1;
+        }
+
+        private void tellCell(int place) {
+            rules.grade = pit.cells[place];
+            rules.depth = rowOf(place);
+            rules.shift = pit.shift;
+        }
+
+        /** How far from the shaft the nearest LIT one of the CELLS beside it is; NONE without any. */
+        private int nearestLight(int place) {
+            int nearest = NONE;
+            for (int side : SIDES) {
+                int next = place + side;
+                if (isLit(next) && (nearest == NONE || farOf(next) < nearest)) {
+                    nearest = farOf(next);
+                }
+            }
+            return nearest;
+        }
+
+        private void spoilBesideLight() {
+            for (int row = 0; row < ground.rows; row++) {
+                for (int column = 0; column < ground.columns; column++) {
+                    int place = ground.placeOf(column, row);
+                    /* GRADE 0 can't become less: the rule need not be worked out. */
+                    if (pit.isSolid(place) && pit.cells[place] > 0) {
+                        spoilCell(place);
+                    }
+                }
+            }
+        }
+
+        private void spoilCell(int place) {
+            int nearest = nearestLight(place);
+            if (nearest == NONE) {
+                return;
+            }
+            int loss = 1;
+            if (ground.hasRule(SPOILS)) {
+                tellCell(place);
+                rules.far = nearest;
+                loss = Math.max(0, rules.valueOf(ground, SPOILS));
+            }
+            pit.cells[place] = Math.max(0, pit.cells[place] - loss);
+        }
+    }
+
+    /** What curtains, changed plans and quakes would bring. What was found is held until forgotten. */
+    private static final class Foresight {
+        private final Works works;
+        private final Pit trial = new Pit();
+        private int shadeFor;
+        private int changeFor;
+        int shadePlace = NONE;
+        int shadeWorth = NONE;
+        int changeRow = NONE;
+        int changeOther = NONE;
+        int changeGrades = NONE;
+
+        Foresight(Works theWorks) {
+            works = theWorks;
+        }
+
+        void forget() {
+            shadeFor = 0;
+            changeFor = 0;
+        }
+
+        void seekShade(Ground ground, Pit pit, int n) {
+            if (shadeFor == n) {
+                return;
+            }
+            shadeFor = n;
+            shadePlace = NONE;
+            shadeWorth = NONE;
+            for (int place = 0; place < PLACES; place++) {
+                if (pit.cells[place] == OPEN && place != ground.shaftPlace()) {
+                    tryShade(ground, pit, n, place);
+                }
+            }
+        }
+
+        private void tryShade(Ground ground, Pit pit, int n, int place) {
+            trial.copy(pit);
+            trial.cells[place] = CURTAINED;
+            works.enter(ground, trial, ground.reach);
+            works.passShifts(n);
+            int left = trial.wholeWorth();
+            if (left > shadeWorth) {
+                shadePlace = place;
+                shadeWorth = left;
+            }
+        }
+
+        void seekChange(Ground ground, Pit pit, int n) {
+            if (changeFor == n) {
+                return;
+            }
+            changeFor = n;
+            changeRow = NONE;
+            changeOther = NONE;
+            changeGrades = gradesBehind(ground, pit, n, 0, 0);
+            for (int row = 0; row < ground.planRows; row++) {
+                for (int other = row + 1; other < ground.planRows; other++) {
+                    tryChange(ground, pit, n, row, other);
+                }
+            }
+        }
+
+        private void tryChange(Ground ground, Pit pit, int n, int row, int other) {
+            int grades = gradesBehind(ground, pit, n, row, other);
+            if (grades > changeGrades) {
+                changeRow = row;
+                changeOther = other;
+                changeGrades = grades;
+            }
+        }
+
+        private int gradesBehind(Ground ground, Pit pit, int n, int row, int other) {
+            trial.copy(pit);
+            trial.changeRows(row, other);
+            works.enter(ground, trial, ground.reach);
+            works.passShifts(n);
+            return trial.tubGrades();
+        }
+
+        int oddsOf(Ground ground, Pit pit, int place) {
+            int cells = ground.columns * ground.rows;
+            int calm = openBehind(ground, pit, NONE, place);
+            int count = calm * cells * (100 - ground.quake);
+            for (int row = 0; row < ground.rows; row++) {
+                for (int column = 0; column < ground.columns; column++) {
+                    int quaked = ground.placeOf(column, row);
+                    int opened = pit.isOpen(quaked) ? openBehind(ground, pit, quaked, place) : calm;
+                    count += opened * ground.quake;
+                }
+            }
+            return count;
+        }
+
+        private int openBehind(Ground ground, Pit pit, int quaked, int place) {
+            trial.copy(pit);
+            works.enter(ground, trial, ground.reach);
+            works.closeCell(quaked);
+            works.passShift();
+            return trial.isOpen(place) ? 1 : 0;
+        }
+    }
+
+    /** What was FELT, and how far the light can reach by it. */
+    private static final class Feeling {
+        private static final int REACHES = REACH_MOST + 1;
+        /* What a CELL shows: its GRADE, or behind these that it is OPEN. */
+        private static final int SIGHTS = GRADES + 1;
+
+        private final Works works;
+        private final int[] rows = new int[FELT_BYTES * FELT_MOST];
+        private final Pit[] pits = new Pit[REACHES];
+        private final int[] tally = new int[SIGHTS];
+        private boolean told;
+        int count;
+        int tellingShifts = NONE;
+        int tellingPlace = NONE;
+        int tellingLeft = NONE;
+
+        Feeling(Works theWorks) {
+            works = theWorks;
+            for (int reach = 0; reach < REACHES; reach++) {
+                pits[reach] = new Pit();
+            }
+        }
+
+        void forget() {
+            told = false;
+        }
+
+        boolean take(Ground ground, Tape tape) {
+            int told = tape.length / FELT_BYTES;
+            if (tape.length % FELT_BYTES != 0 || told < 1 || told > FELT_MOST) {
+                return false;
+            }
+            for (int row = 0; row < told; row++) {
+                if (!canBeFelt(ground, tape.bytes, FELT_BYTES * row)) {
+                    return false;
+                }
+            }
+            System.arraycopy(tape.bytes, 0, rows, 0, tape.length);
+            count = told;
+            forget();
+            return true;
+        }
+
+        private static boolean canBeFelt(Ground ground, int[] bytes, int at) {
+            int sight = bytes[at + 3];
+            return bytes[at] <= FEEL_AHEAD_MOST
+                && ground.placeOf(bytes[at + 1], bytes[at + 2]) != NONE
+                && (sight <= GRADE_MOST || sight == OPEN);
+        }
+
+        int reachBits(Ground ground, Pit pit) {
+            int last = 0;
+            for (int row = 0; row < count; row++) {
+                last = Math.max(last, rows[FELT_BYTES * row]);
+            }
+            if (pit.shift + last > SHIFT_LAST) {
+                return 0;
+            }
+            int bits = 0;
+            for (int reach = 0; reach < REACHES; reach++) {
+                if (agrees(ground, pit, reach, last)) {
+                    bits |= 1 << reach;
+                }
+            }
+            return bits;
+        }
+
+        private boolean agrees(Ground ground, Pit pit, int reach, int last) {
+            Pit trial = pits[reach];
+            trial.copy(pit);
+            works.enter(ground, trial, reach);
+            for (int n = 0; n <= last; n++) {
+                if (!agreesBehind(ground, trial, n)) {
+                    return false;
+                }
+                works.passShift();
+            }
+            return true;
+        }
+
+        private boolean agreesBehind(Ground ground, Pit trial, int n) {
+            for (int row = 0; row < count; row++) {
+                int at = FELT_BYTES * row;
+                if (rows[at] != n) {
+                    continue;
+                }
+                int place = ground.placeOf(rows[at + 1], rows[at + 2]);
+                int felt = rows[at + 3] == OPEN ? NONE : rows[at + 3];
+                if (place == NONE || trial.gradeAt(place) != felt) {
+                    return false;
+                }
+            }
+            return true;
+        }
+
+        void seekTelling(Ground ground, Pit pit) {
+            if (told) {
+                return;
+            }
+            told = true;
+            tellingPlace = NONE;
+            int bits = reachBits(ground, pit);
+            if (bits == 0) {
+                return;
+            }
+            for (int reach = 0; reach < REACHES; reach++) {
+                pits[reach].copy(pit);
+            }
+            tellingLeft = REACHES + 1;
+            int last = Math.min(FEEL_AHEAD_MOST, SHIFT_LAST - pit.shift);
+            for (int n = 1; n <= last; n++) {
+                passAll(ground, bits);
+                tryAllCells(ground, bits, n);
+            }
+        }
+
+        private void passAll(Ground ground, int bits) {
+            for (int reach = 0; reach < REACHES; reach++) {
+                if ((bits >> reach & 1) == 1) {
+                    works.enter(ground, pits[reach], reach);
+                    works.passShift();
+                }
+            }
+        }
+
+        private void tryAllCells(Ground ground, int bits, int n) {
+            for (int row = 0; row < ground.rows; row++) {
+                for (int column = 0; column < ground.columns; column++) {
+                    int place = ground.placeOf(column, row);
+                    int left = mostLeft(bits, place);
+                    if (left < tellingLeft) {
+                        tellingShifts = n;
+                        tellingPlace = place;
+                        tellingLeft = left;
+                    }
+                }
+            }
+        }
+
+        private int mostLeft(int bits, int place) {
+            Arrays.fill(tally, 0);
+            int most = 0;
+            for (int reach = 0; reach < REACHES; reach++) {
+                if ((bits >> reach & 1) == 1) {
+                    int grade = pits[reach].gradeAt(place);
+                    int sight = grade == NONE ? GRADES : grade;
+                    tally[sight]++;
+                    most = Math.max(most, tally[sight]);
+                }
+            }
+            return most;
+        }
+    }
+
+    /** The diggings that are told as KEPT, from the oldest on. */
+    private static final class Kept {
+        final int[] parts = new int[KEPT_PARTS * KEPT_MOST];
+        int count;
+
+        void put(int shift, int miner, int cell, int grade) {
+            if (count == KEPT_MOST) {
+                System.arraycopy(parts, KEPT_PARTS, parts, 0, KEPT_PARTS * (KEPT_MOST - 1));
+                count--;
+            }
+            int at = KEPT_PARTS * count;
+            parts[at] = shift;
+            parts[at + 1] = miner;
+            parts[at + 2] = cell;
+            parts[at + 3] = grade;
+            count++;
+        }
+
+        void copy(Kept other) {
+            count = other.count;
+            System.arraycopy(other.parts, 0, parts, 0, KEPT_PARTS * other.count);
+        }
+    }
+
+    /** How all was ahead of each of the last ACTS, in a ring. */
+    private static final class History {
+        private final Pit[] pits = new Pit[ACTS_MOST];
+        private final Kept[] logs = new Kept[ACTS_MOST];
+        private int next;
+        int count;
+
+        History() {
+            for (int k = 0; k < ACTS_MOST; k++) {
+                pits[k] = new Pit();
+                logs[k] = new Kept();
+            }
+        }
+
+        void put(Pit pit, Kept log) {
+            pits[next].copy(pit);
+            logs[next].copy(log);
+            next = (next + 1) % ACTS_MOST;
+            count = Math.min(ACTS_MOST, count + 1);
+        }
+
+        boolean takeBack(Pit pit, Kept log) {
+            if (count == 0) {
+                return false;
+            }
+            next = (next + ACTS_MOST - 1) % ACTS_MOST;
+            count--;
+            pit.copy(pits[next]);
+            log.copy(logs[next]);
+            return true;
+        }
+    }
+
+    /** AN IMAGE: written, and read from a tape. */
+    private static final class Image {
+        final int[] bytes = new int[IMAGE_MOST];
+        int length;
+        private int sum;
+        /* The reading: what is still to come of the tape, and whether all was as it may be. */
+        private Tape tape = null;
+        private int at;
+        private boolean fits;
+
+        void write(Ground ground, Pit pit) {
+            length = 0;
+            sum = 233;
+            put(pit.shift >> 8);
+            put(pit.shift & 255);
+            put(pit.purse >> 16);
+            put(pit.purse >> 8 & 255);
+            put(pit.purse & 255);
+            for (int row = 0; row < ground.rows; row++) {
+                putAll(pit.cells, ground.placeOf(0, row), ground.columns);
+            }
+            putAll(pit.hurts, 0, ground.miners);
+            for (int row = 0; row < ground.planRows; row++) {
+                put(pit.planMiners[row]);
+                put(columnOf(pit.planPlaces[row]));
+                put(rowOf(pit.planPlaces[row]));
+            }
+            putAll(pit.sold, 0, ground.orders);
+            putAll(pit.tubCounts, 0, GRADES);
+            put(sum);
+        }
+
+        private void putAll(int[] parts, int from, int count) {
+            for (int k = 0; k < count; k++) {
+                put(parts[from + k]);
+            }
+        }
+
+        private void put(int octet) {
+            if (length < IMAGE_MOST) {
+                bytes[length] = octet;
+                length++;
+                sum = (5 * sum + octet) % 251;
+            }
+        }
+
+        /** Whether the tape is AN IMAGE of this MINE: into is as it tells then, and free if not. */
+        boolean tellsPit(Ground ground, Tape newTape, Pit into) {
+            tape = newTape;
+            at = 0;
+            sum = 233;
+            fits = true;
+            into.begin(ground);
+            into.shift = next(255) << 8;
+            into.shift += next(255);
+            into.purse = next(255) << 16;
+            into.purse += next(255) << 8;
+            into.purse += next(255);
+            takeCells(ground, into);
+            takeAll(into.hurts, ground.miners, 1);
+            takePlan(ground, into);
+            takeAll(into.sold, ground.orders, 1);
+            takeAll(into.tubCounts, GRADES, TUBS_MOST);
+            int due = sum;
+            return next(255) == due && fits && at == tape.length
+                && into.shift <= SHIFT_LAST && into.purse <= PURSE_MOST;
+        }
+
+        private void takeCells(Ground ground, Pit into) {
+            for (int row = 0; row < ground.rows; row++) {
+                for (int column = 0; column < ground.columns; column++) {
+                    int place = ground.placeOf(column, row);
+                    int told = next(OPEN);
+                    boolean canBe = place == ground.shaftPlace()
+                        ? told == OPEN : told <= GRADE_MOST || told >= CURTAINED;
+                    fits = fits && canBe;
+                    into.cells[place] = told;
+                }
+            }
+        }
+
+        private void takePlan(Ground ground, Pit into) {
+            for (int row = 0; row < ground.planRows; row++) {
+                into.planMiners[row] = next(ground.miners - 1);
+                int column = next(ground.columns - 1);
+                into.planPlaces[row] = ground.placeOf(column, next(ground.rows - 1));
+            }
+        }
+
+        private void takeAll(int[] into, int count, int most) {
+            for (int k = 0; k < count; k++) {
+                into[k] = next(most);
+            }
+        }
+
+        /** The next byte; 0 where there is none, or it is above most, and then the tape does not fit. */
+        private int next(int most) {
+            if (tape == null || at >= tape.length || tape.bytes[at] > most) {
+                fits = false;
+                return 0;
+            }
+            int octet = tape.bytes[at];
+            at++;
+            sum = (5 * sum + octet) % 251;
+            return octet;
+        }
+    }
+
+    /** Reads a MINE's text into a ground, up to the first FAULT along it. */
+    private static final class Reader {
+        private static final int FAULT_BYTE = 1;
+        private static final int FAULT_NAME_AGAIN = 2;
+        private static final int FAULT_NO_MINER = 3;
+        private static final int FAULT_NUMBER = 4;
+        private static final int FAULT_TOO_DEEP = 5;
+        private static final int FAULT_TOO_MANY = 6;
+
+        private static final int DIGITS_MOST = 4;
+        private static final int OPEN_MOST = 7;
+
+        /* The kinds of what stands next. */
+        private static final int END = 0;
+        private static final int WORD = 1;
+        private static final int NUMBER = 2;
+        private static final int SIGN = 3;
+        private static final int WRONG = 4;
+
+        /* The OWN WORDS, six places each; a word's number is its row. */
+        private static final String OWN_WORDS =
+            "seam  by    shaft reach quake grade miner dig   at    order tubs  pays  spoilsfalls gets  depth shift far   open  lit   if    or    and   not   all   min   max   ";
+        private static final int OWN_WORD_COUNT = 27;
+        private static final int OWN_SEAM = 0;
+        private static final int OWN_BY = 1;
+        private static final int OWN_SHAFT = 2;
+        private static final int OWN_REACH = 3;
+        private static final int OWN_QUAKE = 4;
+        private static final int OWN_GRADE = 5;
+        private static final int OWN_MINER = 6;
+        private static final int OWN_DIG = 7;
+        private static final int OWN_AT = 8;
+        private static final int OWN_ORDER = 9;
+        private static final int OWN_TUBS = 10;
+        private static final int OWN_PAYS = 11;
+        private static final int OWN_SPOILS = 12;
+        private static final int OWN_FALLS = 13;
+        private static final int OWN_GETS = 14;
+        private static final int OWN_DEPTH = 15;
+        private static final int OWN_SHIFT = 16;
+        private static final int OWN_FAR = 17;
+        private static final int OWN_OPEN = 18;
+        private static final int OWN_LIT = 19;
+        private static final int OWN_IF = 20;
+        private static final int OWN_OR = 21;
+        private static final int OWN_AND = 22;
+        private static final int OWN_NOT = 23;
+        private static final int OWN_ALL = 24;
+        private static final int OWN_MIN = 25;
+        private static final int OWN_MAX = 26;
+
+        int fault;
+        int faultAt = NONE;
+        private Tape tape = null;
+        private Ground ground = null;
+        private int at;
+        private int stepCount;
+        private int rule;
+        /* What stands next is looked at no sooner than it is asked for: the FAULT ahead of it is first. */
+        private boolean looked;
+        private int kind;
+        private int from;
+        private int value;
+        private int own;
+
+        /** How many STATEMENTS; NONE with a FAULT. */
+        int read(Tape newTape, Ground newGround) {
+            tape = newTape;
+            ground = newGround;
+            ground.clear();
+            fault = 0;
+            faultAt = NONE;
+            at = 0;
+            stepCount = 0;
+            looked = false;
+            kind = END;
+            int statements = 0;
+            for (int k = 0; k <= STATEMENTS_MOST; k++) {
+                skipBlanks();
+                if (at >= tape.length && statements > 0) {
+                    return statements;
+                }
+                if (!readStatement(statements)) {
+                    return NONE;
+                }
+                statements++;
+            }
+            return NONE;
+        }
+
+        private boolean readStatement(int statements) {
+            if (statements == STATEMENTS_MOST) {
+                return failAt(FAULT_TOO_MANY, at);
+            }
+            look();
+            if (kind != WORD || (own == OWN_SEAM) != (statements == 0)) {
+                return fail(FAULT_BYTE);
+            }
+            return readStatementOf(own) && takeSign(';');
+        }
+
+        private boolean readStatementOf(int word) {
+            switch (word) {
+                case OWN_SEAM: return readSeam();
+                case OWN_SHAFT: return readShaft();
+                case OWN_REACH: return readReach();
+                case OWN_QUAKE: return readQuake();
+                case OWN_GRADE: return readGrade();
+                case OWN_MINER: return readMiner();
+                case OWN_DIG: return readDig();
+                case OWN_ORDER: return readOrder();
+                case OWN_SPOILS: return readRule(SPOILS);
+                case OWN_FALLS: return readRule(FALLS);
+                case OWN_GETS: return readRule(GETS);
+                default: return fail(FAULT_BYTE);
+            }
+        }
+
+        private boolean readSeam() {
+            pass();
+            if (!takeNumber(3, 7)) {
+                return false;
+            }
+            int columns = value;
+            if (!takeWord(OWN_BY) || !takeNumber(3, 7)) {
+                return false;
+            }
+            ground.columns = columns;
+            ground.rows = value;
+            return true;
+        }
+
+        private boolean readShaft() {
+            pass();
+            if (!takeNumber(0, ground.columns - 1)) {
+                return false;
+            }
+            ground.shaft = value;
+            return true;
+        }
+
+        private boolean readReach() {
+            pass();
+            if (!takeNumber(0, REACH_MOST)) {
+                return false;
+            }
+            ground.reach = value;
+            return true;
+        }
+
+        private boolean readQuake() {
+            pass();
+            if (!takeNumber(0, 100)) {
+                return false;
+            }
+            ground.quake = value;
+            return true;
+        }
+
+        private boolean readGrade() {
+            pass();
+            int place = takeCell();
+            if (place == NONE || !takeNumber(0, GRADE_MOST)) {
+                return false;
+            }
+            ground.grades[place] = value;
+            return true;
+        }
+
+        private boolean readMiner() {
+            if (ground.miners == MINERS_MOST) {
+                return fail(FAULT_TOO_MANY);
+            }
+            pass();
+            if (!takeNewName()) {
+                return false;
+            }
+            ground.minerNames[ground.miners] = value;
+            ground.miners++;
+            return true;
+        }
+
+        private boolean readDig() {
+            if (ground.planRows == PLAN_MOST) {
+                return fail(FAULT_TOO_MANY);
+            }
+            pass();
+            int miner = takeMiner();
+            if (miner == NONE || !takeWord(OWN_AT)) {
+                return false;
+            }
+            int place = takeCell();
+            if (place == NONE) {
+                return false;
+            }
+            ground.planMiners[ground.planRows] = miner;
+            ground.planPlaces[ground.planRows] = place;
+            ground.planRows++;
+            return true;
+        }
+
+        private boolean readOrder() {
+            int order = ground.orders;
+            if (order == ORDERS_MOST) {
+                return fail(FAULT_TOO_MANY);
+            }
+            pass();
+            if (!takeNewName()) {
+                return false;
+            }
+            ground.orderNames[order] = value;
+            if (!takeWord(OWN_GRADE) || !takeNumber(0, GRADE_MOST)) {
+                return false;
+            }
+            ground.orderGrades[order] = value;
+            if (!takeWord(OWN_TUBS) || !takeNumber(1, 9)) {
+                return false;
+            }
+            ground.orderTubs[order] = value;
+            if (!takeWord(OWN_PAYS) || !takeNumber(0, 999)) {
+                return false;
+            }
+            ground.orderPays[order] = value;
+            ground.orders++;
+            return true;
+        }
+
+        private boolean readRule(int newRule) {
+            if (ground.hasRule(newRule)) {
+                return fail(FAULT_TOO_MANY);
+            }
+            pass();
+            rule = newRule;
+            int begin = stepCount;
+            boolean good = rule == FALLS ? readTest(0) : readSum(0);
+            if (good) {
+                ground.ruleFrom[newRule] = begin;
+                ground.ruleEnd[newRule] = stepCount;
+            }
+            return good;
+        }
+
+        /* From here on open tells how many of ( [ not are open: OPEN_MOST bounds how deep the calls go. */
+
+        private boolean readTest(int open) {
+            if (!readBoth(open)) {
+                return false;
+            }
+            for (int k = 0; k < TAPE_MOST && isOwn(OWN_OR); k++) {
+                pass();
+                if (!readBoth(open)) {
+                    return false;
+                }
+                put(STEP_OR);
+            }
+            return true;
+        }
+
+        private boolean readBoth(int open) {
+            if (!readFact(open)) {
+                return false;
+            }
+            for (int k = 0; k < TAPE_MOST && isOwn(OWN_AND); k++) {
+                pass();
+                if (!readFact(open)) {
+                    return false;
+                }
+                put(STEP_AND);
+            }
+            return true;
+        }
+
+        private boolean readFact(int open) {
+            if (isOwn(OWN_NOT)) {
+                if (!passOpening(open) || !readFact(open + 1)) {
+                    return false;
+                }
+                put(STEP_NOT);
+                return true;
+            }
+            if (isSign('[')) {
+                return passOpening(open) && readTest(open + 1) && takeSign(']');
+            }
+            if (isOwn(OWN_ALL)) {
+                pass();
+                put(STEP_ALL);
+                return true;
+            }
+            return readComparing(open);
+        }
+
+        private boolean readComparing(int open) {
+            if (!readSum(open)) {
+                return false;
+            }
+            int step = comparingStep();
+            if (step == 0) {
+                return fail(FAULT_BYTE);
+            }
+            pass();
+            if (!readSum(open)) {
+                return false;
+            }
+            put(step);
+            return true;
+        }
+
+        private boolean readSum(int open) {
+            if (!readProduct(open)) {
+                return false;
+            }
+            int step = sumStep();
+            for (int k = 0; k < TAPE_MOST && step != 0; k++) {
+                pass();
+                if (!readProduct(open)) {
+                    return false;
+                }
+                put(step);
+                step = sumStep();
+            }
+            return true;
+        }
+
+        private boolean readProduct(int open) {
+            if (!readPart(open)) {
+                return false;
+            }
+            int step = productStep();
+            for (int k = 0; k < TAPE_MOST && step != 0; k++) {
+                pass();
+                if (!readPart(open)) {
+                    return false;
+                }
+                put(step);
+                step = productStep();
+            }
+            return true;
+        }
+
+        private boolean readPart(int open) {
+            look();
+            if (kind == NUMBER) {
+                put(value);
+                pass();
+                return true;
+            }
+            if (isSign('(')) {
+                return passOpening(open) && readSum(open + 1) && takeSign(')');
+            }
+            if (isOwn(OWN_IF)) {
+                return readChoice(open);
+            }
+            if (isOwn(OWN_MIN)) {
+                return readPair(open, STEP_MIN);
+            }
+            if (isOwn(OWN_MAX)) {
+                return readPair(open, STEP_MAX);
+            }
+            int step = factStep();
+            if (step == 0) {
+                return fail(FAULT_BYTE);
+            }
+            put(step);
+            pass();
+            return true;
+        }
+
+        private boolean readChoice(int open) {
+            pass();
+            if (!takeOpening(open) || !readTest(open + 1) || !takeSign(',')) {
+                return false;
+            }
+            if (!readSum(open + 1) || !takeSign(',') || !readSum(open + 1) || !takeSign(')')) {
+                return false;
+            }
+            put(STEP_CHOOSE);
+            return true;
+        }
+
+        private boolean readPair(int open, int step) {
+            pass();
+            if (!takeOpening(open) || !readSum(open + 1) || !takeSign(',')) {
+                return false;
+            }
+            if (!readSum(open + 1) || !takeSign(')')) {
+                return false;
+            }
+            put(step);
+            return true;
+        }
+
+        private boolean takeOpening(int open) {
+            return isSign('(') ? passOpening(open) : fail(FAULT_BYTE);
+        }
+
+        private boolean passOpening(int open) {
+            if (open >= OPEN_MOST) {
+                return fail(FAULT_TOO_DEEP);
+            }
+            pass();
+            return true;
+        }
+
+        private int comparingStep() {
+            if (isSign('<')) {
+                return STEP_BELOW;
+            }
+            if (isSign('>')) {
+                return STEP_ABOVE;
+            }
+            return isSign('=') ? STEP_LIKE : 0;
+        }
+
+        private int sumStep() {
+            if (isSign('+')) {
+                return STEP_ADD;
+            }
+            return isSign('-') ? STEP_LESSEN : 0;
+        }
+
+        private int productStep() {
+            if (isSign('*')) {
+                return STEP_TIMES;
+            }
+            if (isSign('/')) {
+                return STEP_DIVIDE;
+            }
+            return isSign('%') ? STEP_REST : 0;
+        }
+
+        private int factStep() {
+            look();
+            if (kind != WORD) {
+                return 0;
+            }
+            switch (own) {
+                case OWN_GRADE: return STEP_GRADE;
+                case OWN_DEPTH: return STEP_DEPTH;
+                case OWN_SHIFT: return STEP_SHIFT;
+                case OWN_FAR: return rule == SPOILS ? STEP_FAR : 0;
+                case OWN_OPEN: return rule == SPOILS ? 0 : STEP_OPEN;
+                case OWN_LIT: return rule == SPOILS ? 0 : STEP_LIT;
+                default: return 0;
+            }
+        }
+
+        private void put(int step) {
+            if (stepCount < TAPE_MOST) {
+                ground.steps[stepCount] = step;
+                stepCount++;
+            }
+        }
+
+        private int takeCell() {
+            if (!takeNumber(0, ground.columns - 1)) {
+                return NONE;
+            }
+            int column = value;
+            if (!takeNumber(0, ground.rows - 1)) {
+                return NONE;
+            }
+            return ground.placeOf(column, value);
+        }
+
+        private boolean takeNumber(int least, int most) {
+            look();
+            if (kind != NUMBER) {
+                return fail(FAULT_BYTE);
+            }
+            if (value < least || value > most) {
+                return fail(FAULT_NUMBER);
+            }
+            pass();
+            return true;
+        }
+
+        private boolean takeNewName() {
+            look();
+            if (kind != WORD || own != NONE) {
+                return fail(FAULT_BYTE);
+            }
+            if (ground.hasName(value)) {
+                return fail(FAULT_NAME_AGAIN);
+            }
+            pass();
+            return true;
+        }
+
+        private int takeMiner() {
+            look();
+            if (kind != WORD || own != NONE) {
+                fail(FAULT_BYTE);
+                return NONE;
+            }
+            int miner = ground.minerNamed(value);
+            if (miner == NONE) {
+                fail(FAULT_NO_MINER);
+                return NONE;
+            }
+            pass();
+            return miner;
+        }
+
+        private boolean takeWord(int word) {
+            if (!isOwn(word)) {
+                return fail(FAULT_BYTE);
+            }
+            pass();
+            return true;
+        }
+
+        private boolean takeSign(int sign) {
+            if (!isSign(sign)) {
+                return fail(FAULT_BYTE);
+            }
+            pass();
+            return true;
+        }
+
+        private boolean isOwn(int word) {
+            look();
+            return kind == WORD && own == word;
+        }
+
+        private boolean isSign(int sign) {
+            look();
+            return kind == SIGN && value == sign;
+        }
+
+        private boolean fail(int newFault) {
+            return failAt(newFault, from);
+        }
+
+        private boolean failAt(int newFault, int place) {
+            if (fault == 0) {
+                fault = newFault;
+                faultAt = place;
+            }
+            return false;
+        }
+
+        private void pass() {
+            looked = false;
+        }
+
+        private void look() {
+            if (looked) {
+                return;
+            }
+            looked = true;
+            boolean behindPlain = kind == WORD || kind == NUMBER;
+            int behind = at;
+            skipBlanks();
+            from = at;
+            if (at >= tape.length) {
+                kind = END;
+            } else if (isLetter(at)) {
+                lookAtWord();
+            } else if (isDigit(at)) {
+                lookAtNumber();
+            } else {
+                kind = SIGN;
+                value = tape.bytes[at];
+                at++;
+            }
+            if (behindPlain && behind == from && (kind == WORD || kind == NUMBER)) {
+                kind = WRONG;
+                fail(FAULT_BYTE);
+            }
+        }
+
+        private void lookAtWord() {
+            kind = WORD;
+            int letters = 0;
+            value = 0;
+            for (int k = from; k < tape.length && isLetter(k); k++) {
+                if (letters == NAME_LETTERS) {
+                    kind = WRONG;
+                    failAt(FAULT_BYTE, k);
+                    return;
+                }
+                value = 27 * value + tape.bytes[k] - 'a' + 1;
+                letters++;
+            }
+            at = from + letters;
+            for (int k = letters; k < NAME_LETTERS; k++) {
+                value *= 27;
+            }
+            own = ownWord(letters);
+        }
+
+        private void lookAtNumber() {
+            kind = NUMBER;
+            int digits = 0;
+            value = 0;
+            for (int k = from; k < tape.length && isDigit(k); k++) {
+                if (digits == DIGITS_MOST) {
+                    kind = WRONG;
+                    failAt(FAULT_BYTE, k);
+                    return;
+                }
+                value = 10 * value + tape.bytes[k] - '0';
+                digits++;
+            }
+            at = from + digits;
+        }
+
+        private int ownWord(int letters) {
+            for (int word = 0; word < OWN_WORD_COUNT; word++) {
+                if (isOwnWord(word, letters)) {
+                    return word;
+                }
+            }
+            return NONE;
+        }
+
+        private boolean isOwnWord(int word, int letters) {
+            for (int k = 0; k < NAME_LETTERS; k++) {
+                int letter = k < letters ? tape.bytes[from + k] : ' ';
+                if (letter != OWN_WORDS.charAt(NAME_LETTERS * word + k)) {
+                    return false;
+                }
+            }
+            return true;
+        }
+
+        private void skipBlanks() {
+            for (int k = at; k < tape.length && isBlank(k); k++) {
+                at = k + 1;
+            }
+        }
+
+        private boolean isBlank(int k) {
+            return tape.bytes[k] == ' ' || tape.bytes[k] == '\n';
+        }
+
+        private boolean isLetter(int k) {
+            return tape.bytes[k] >= 'a' && tape.bytes[k] <= 'z';
+        }
+
+        private boolean isDigit(int k) {
+            return tape.bytes[k] >= '0' && tape.bytes[k] <= '9';
+        }
+    }
+}
