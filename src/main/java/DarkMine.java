@@ -73,18 +73,17 @@ public final class DarkMine {
     private static final int STEP_OR = -21;
 
     private final Tape tape = new Tape();
-    private final Reader reader = new Reader();
-    private final Works works = new Works();
-    private final Foresight foresight = new Foresight(works);
-    private final Feeling feeling = new Feeling(works);
     private final Pit pit = new Pit();
     private final Pit trial = new Pit();
-    private final Kept log = new Kept();
     private final History history = new History();
-    private final Image picture = new Image();
+    private final Image picture = new Image(tape);
     private final int[] refusals = new int[6];
     private Ground ground = new Ground();
     private Ground spareGround = new Ground();
+    private final Reader reader = new Reader(spareGround);
+    private final Works works = new Works(ground, pit);
+    private final Foresight foresight = new Foresight(works);
+    private final Feeling feeling = new Feeling(works);
     private int drawn = 1;
 
     public DarkMine() {
@@ -121,8 +120,7 @@ public final class DarkMine {
         spareGround = ground;
         ground = told;
         pit.begin(ground);
-        log.count = 0;
-        history.count = 0;
+        history.clear();
         feeling.count = 0;
         forgetTrials();
         return statements;
@@ -150,9 +148,9 @@ public final class DarkMine {
             case 10: return pit.tubsFrom(0);
             case 11: return pit.purse;
             case 12: return pit.wholeWorth();
-            case 13: return log.count;
+            case 13: return history.keptCount;
             case 14: return feeling.count;
-            case 15: return history.count;
+            case 15: return history.acts;
             case 16: return drawn;
             default: return NONE;
         }
@@ -239,7 +237,7 @@ public final class DarkMine {
             if (trial.isOpen(place)) {
                 return n;
             }
-            works.passShift();
+            works.pass(1);
         }
         return NONE;
     }
@@ -322,7 +320,9 @@ public final class DarkMine {
         if (!shiftsCome(1, 1, 1)) {
             return NONE;
         }
-        feeling.seekTelling(ground, pit);
+        if (!feeling.isTold) {
+            feeling.seekTelling(ground, pit, feeling.reachBits(ground, pit));
+        }
         if (feeling.tellingPlace == NONE) {
             return NONE;
         }
@@ -410,7 +410,7 @@ public final class DarkMine {
     }
 
     public boolean undo() {
-        if (!history.takeBack(pit, log)) {
+        if (!history.takeBack(pit)) {
             return no(4);
         }
         forgetTrials();
@@ -426,10 +426,10 @@ public final class DarkMine {
     }
 
     public int kept(int k, int what) {
-        if (k < 0 || k >= log.count || what < 0 || what >= KEPT_PARTS) {
+        if (k < 0 || k >= history.keptCount || what < 0 || what >= KEPT_PARTS) {
             return NONE;
         }
-        return log.parts[KEPT_PARTS * k + what];
+        return history.keptParts[KEPT_PARTS * k + what];
     }
 
     public int image() {
@@ -442,14 +442,13 @@ public final class DarkMine {
     }
 
     public boolean on() {
-        boolean told = ground.hasSeam() && picture.tellsPit(ground, tape, trial);
+        boolean told = ground.hasSeam() && picture.tellsPit(ground, trial);
         tape.length = 0;
         if (!told) {
             return no(5);
         }
         pit.copy(trial);
-        log.count = 0;
-        history.count = 0;
+        history.clear();
         forgetTrials();
         return true;
     }
@@ -470,7 +469,7 @@ public final class DarkMine {
 
     /** Ahead of each ACT: what it changes can be brought back, what was found ahead holds no more. */
     private void beginAct() {
-        history.put(pit, log);
+        history.put(pit);
         forgetTrials();
     }
 
@@ -486,17 +485,17 @@ public final class DarkMine {
     private void lookAhead(int n) {
         trial.copy(pit);
         works.enter(ground, trial, ground.reach);
-        works.passShifts(n);
+        works.pass(n);
     }
 
     /** One SHIFT of the pit itself: 1 if a tub was got, else 0. */
     private int passAndKeep() {
         int shift = pit.shift;
-        works.passShift();
+        works.pass(1);
         if (works.dugMiner == NONE) {
             return 0;
         }
-        log.put(shift, works.dugMiner, works.dugPlace - PLACE_OF_FIRST, works.dugGrade);
+        history.keep(shift, works.dugMiner, works.dugPlace - PLACE_OF_FIRST, works.dugGrade);
         return works.dugGrade == NONE ? 0 : 1;
     }
 
@@ -720,6 +719,11 @@ public final class DarkMine {
         int shaftPlace() {
             return placeOf(shaft, 0);
         }
+
+        /** Where the places of the seam end; among them are some that are WALL. */
+        int endOfPlaces() {
+            return 8 * rows + PLACE_OF_FIRST;
+        }
     }
 
     /** All that ACTS change, but what is KEPT and the seed. */
@@ -738,10 +742,8 @@ public final class DarkMine {
             purse = 0;
             Arrays.fill(cells, WALL);
             for (int row = 0; row < ground.rows; row++) {
-                for (int column = 0; column < ground.columns; column++) {
-                    int place = ground.placeOf(column, row);
-                    cells[place] = ground.grades[place];
-                }
+                int place = 8 * row + PLACE_OF_FIRST;
+                System.arraycopy(ground.grades, place, cells, place, ground.columns);
             }
             if (ground.hasSeam()) {
                 cells[ground.shaftPlace()] = OPEN;
@@ -854,29 +856,25 @@ public final class DarkMine {
         private final int[] stack = new int[STACK_MOST];
         private int top;
 
-        int valueOf(Ground ground, int rule) {
+        /** What the rule tells, 1 or 0 for a TEST; a ground without that rule has another value. */
+        int valueOf(Ground ground, int rule, int without) {
+            if (!ground.hasRule(rule)) {
+                return without;
+            }
             top = 0;
-            int end = Math.min(ground.ruleEnd[rule], TAPE_MOST);
-            for (int k = ground.ruleFrom[rule]; k < end; k++) {
-                take(ground.steps[k]);
+            for (int k = ground.ruleFrom[rule]; k < ground.ruleEnd[rule]; k++) {
+                int step = ground.steps[k];
+                if (step >= STEP_ALL) {
+                    push(step >= 0 ? step : fact(step));
+                } else if (step == STEP_NOT) {
+                    push(1 - pop());
+                } else {
+                    int second = pop();
+                    int first = pop();
+                    push(step == STEP_CHOOSE ? chosen(pop(), first, second) : result(step, first, second));
+                }
             }
             return pop();
-        }
-
-        private void take(int step) {
-            if (step >= STEP_ALL) {
-                push(step >= 0 ? step : fact(step));
-            } else if (step == STEP_NOT) {
-                push(1 - pop());
-            } else if (step == STEP_CHOOSE) {
-                int second = pop();
-                int first = pop();
-                push(pop() == 1 ? first : second);
-            } else {
-                int second = pop();
-                int first = pop();
-                push(result(step, first, second));
-            }
         }
 
         private void push(int value) {
@@ -906,6 +904,10 @@ public final class DarkMine {
             }
         }
 
+        private static int chosen(int holds, int first, int second) {
+            return holds == 1 ? first : second;
+        }
+
         private static int result(int step, int a, int b) {
             switch (step) {
                 case STEP_ADD: return bounded((long) a + b);
@@ -913,8 +915,8 @@ public final class DarkMine {
                 case STEP_TIMES: return bounded((long) a * b);
                 case STEP_DIVIDE: return b == 0 ? 0 : bounded(Math.floorDiv(a, b));
                 case STEP_REST: return b == 0 ? 0 : Math.floorMod(a, b);
-                case STEP_MIN: return Math.min(a, b);
-                case STEP_MAX: return Math.max(a, b);
+                case STEP_MIN: return a < b ? a : b;
+                case STEP_MAX: return a > b ? a : b;
                 case STEP_BELOW: return a < b ? 1 : 0;
                 case STEP_ABOVE: return a > b ? 1 : 0;
                 case STEP_LIKE: return a == b ? 1 : 0;
@@ -924,24 +926,38 @@ public final class DarkMine {
         }
 
         private static int bounded(long value) {
-            return (int) Math.max(-VALUE_MOST, Math.min(VALUE_MOST, value));
+            if (value > VALUE_MOST) {
+                return VALUE_MOST;
+            }
+            return value < -VALUE_MOST ? -VALUE_MOST : (int) value;
         }
     }
 
     /** Lets SHIFTS go by in a pit. */
     private static final class Works {
+        /* More than any CELL can be FAR. */
+        private static final int DARK = 1000;
+
         private final Rules rules = new Rules();
+        /* How FAR each place is; how far a LIT one is, DARK where it is not LIT. */
         private final int[] far = new int[PLACES];
+        private final int[] glow = new int[PLACES];
         private final int[] queue = new int[PLACES];
-        private Ground ground = null;
-        private Pit pit = null;
+        private Ground ground;
+        private Pit pit;
         private int reach;
-        /* Whether far is no more what the pit's OPEN CELLS and curtains make it. */
+        /* Whether far and glow are no more what the pit's OPEN CELLS and curtains make them. */
         private boolean stale;
         /* The digging of the latest SHIFT: no MINER without one, no GRADE where the CELL fell. */
         int dugMiner = NONE;
         int dugPlace = NONE;
         int dugGrade = NONE;
+
+        Works(Ground firstGround, Pit firstPit) {
+            ground = firstGround;
+            pit = firstPit;
+            stale = true;
+        }
 
         void enter(Ground newGround, Pit newPit, int newReach) {
             ground = newGround;
@@ -950,21 +966,22 @@ public final class DarkMine {
             stale = true;
         }
 
-        boolean isLit(int place) {
-            int steps = farOf(place);
-            return steps != NONE && steps <= reach && pit.cells[place] == OPEN;
-        }
-
         int farOf(int place) {
-            if (stale) {
-                spread();
-                stale = false;
-            }
+            spreadLight();
             return far[place];
         }
 
+        boolean isLit(int place) {
+            spreadLight();
+            return glow[place] < DARK;
+        }
+
         boolean isSafe(int place) {
-            return pit.canBeDug(place) && !fallsAt(place);
+            if (!pit.canBeDug(place)) {
+                return false;
+            }
+            tellDigging(place);
+            return rules.valueOf(ground, FALLS, 0) == 0;
         }
 
         /** Whether a quake at that CELL makes it SOLID: it does if it is OPEN and not the shaft's. */
@@ -977,47 +994,15 @@ public final class DarkMine {
             return true;
         }
 
-        void passShifts(int n) {
+        /** n SHIFTS without DRAWS. */
+        void pass(int n) {
             for (int k = 0; k < n; k++) {
-                passShift();
+                dugMiner = NONE;
+                digByPlan();
+                spreadLight();
+                spoilBesideLight();
+                pit.shift = Math.min(SHIFT_LAST, pit.shift + 1);
             }
-        }
-
-        void passShift() {
-            dugMiner = NONE;
-            digByPlan();
-            spoilBesideLight();
-            pit.shift = Math.min(SHIFT_LAST, pit.shift + 1);
-        }
-
-        private void spread() {
-            Arrays.fill(far, NONE);
-            int start = ground.shaftPlace();
-            if (start == NONE) {
-                return;
-            }
-            far[start] = 0;
-            queue[0] = start;
-            int known = 1;
-            for (int k = 0; k < known && k < PLACES; k++) {
-                known = spreadFrom(queue[k], known);
-            }
-        }
-
-        private int spreadFrom(int place, int known) {
-            if (pit.cells[place] == CURTAINED) {
-                return known;
-            }
-            int end = known;
-            for (int side : SIDES) {
-                int next = place + side;
-                if (far[next] == NONE && pit.isOpen(next)) {
-                    far[next] = far[place] + 1;
-                    queue[end] = next;
-                    end++;
-                }
-            }
-            return end;
         }
 
         private void digByPlan() {
@@ -1032,82 +1017,92 @@ public final class DarkMine {
             }
             dugMiner = miner;
             dugPlace = place;
-            if (fallsAt(place)) {
+            tellDigging(place);
+            if (rules.valueOf(ground, FALLS, 0) == 1) {
                 dugGrade = NONE;
                 pit.cells[place] = 0;
                 pit.hurts[miner] = 1;
             } else {
-                dugGrade = gotAt(place);
+                int got = rules.valueOf(ground, GETS, pit.cells[place]);
+                dugGrade = Math.max(0, Math.min(GRADE_MOST, got));
                 pit.addTub(dugGrade);
                 pit.cells[place] = OPEN;
                 stale = true;
             }
         }
 
-        private boolean fallsAt(int place) {
-            if (!ground.hasRule(FALLS)) {
-                return false;
-            }
-            tellDigging(place);
-            return rules.valueOf(ground, FALLS) == 1;
-        }
-
-        private int gotAt(int place) {
-            if (!ground.hasRule(GETS)) {
-                return pit.cells[place];
-            }
-            tellDigging(place);
-            return Math.max(0, Math.min(GRADE_MOST, rules.valueOf(ground, GETS)));
-        }
-
         private void tellDigging(int place) {
-            tellCell(place);
-            rules.open = pit.openBeside(place);
-            rules.lit = nearestLight(place) == NONE ? 0 : 1;
-        }
-
-        private void tellCell(int place) {
+            spreadLight();
             rules.grade = pit.cells[place];
             rules.depth = rowOf(place);
             rules.shift = pit.shift;
+            rules.open = pit.openBeside(place);
+            rules.lit = nearestGlow(place) < DARK ? 1 : 0;
         }
 
-        /** How far from the shaft the nearest LIT one of the CELLS beside it is; NONE without any. */
-        private int nearestLight(int place) {
-            int nearest = NONE;
+        private int nearestGlow(int place) {
+            int nearest = DARK;
             for (int side : SIDES) {
-                int next = place + side;
-                if (isLit(next) && (nearest == NONE || farOf(next) < nearest)) {
-                    nearest = farOf(next);
-                }
+                nearest = Math.min(nearest, glow[place + side]);
             }
             return nearest;
         }
 
         private void spoilBesideLight() {
-            for (int row = 0; row < ground.rows; row++) {
-                for (int column = 0; column < ground.columns; column++) {
-                    int place = ground.placeOf(column, row);
-                    /* GRADE 0 can't become less: the rule need not be worked out. */
-                    if (pit.isSolid(place) && pit.cells[place] > 0) {
-                        spoilCell(place);
-                    }
+            int end = ground.endOfPlaces();
+            for (int place = PLACE_OF_FIRST; place < end; place++) {
+                int grade = pit.cells[place];
+                /* GRADE 0 can't become less: the rule need not be worked out. */
+                if (grade == 0 || grade > GRADE_MOST) {
+                    continue;
+                }
+                int nearest = nearestGlow(place);
+                if (nearest < DARK) {
+                    rules.grade = grade;
+                    rules.depth = rowOf(place);
+                    rules.shift = pit.shift;
+                    rules.far = nearest;
+                    int loss = Math.max(0, rules.valueOf(ground, SPOILS, 1));
+                    pit.cells[place] = Math.max(0, grade - loss);
                 }
             }
         }
 
-        private void spoilCell(int place) {
-            int nearest = nearestLight(place);
-            if (nearest == NONE) {
+        private void spreadLight() {
+            if (!stale) {
                 return;
             }
-            int loss = 1;
-            if (ground.hasRule(SPOILS)) {
-                tellCell(place);
-                rules.far = nearest;
-                loss = Math.max(0, rules.valueOf(ground, SPOILS));
+            stale = false;
+            Arrays.fill(far, NONE);
+            Arrays.fill(glow, DARK);
+            int start = ground.shaftPlace();
+            if (start == NONE) {
+                return;
             }
-            pit.cells[place] = Math.max(0, pit.cells[place] - loss);
+            far[start] = 0;
+            queue[0] = start;
+            int known = 1;
+            for (int k = 0; k < known && k < PLACES; k++) {
+                int place = queue[k];
+                /* Behind a curtain it is dark, and no step leads out of its CELL. */
+                if (pit.cells[place] == OPEN) {
+                    glow[place] = far[place] <= reach ? far[place] : DARK;
+                    known = stepOn(place, known);
+                }
+            }
+        }
+
+        private int stepOn(int place, int known) {
+            int end = known;
+            for (int side : SIDES) {
+                int next = place + side;
+                if (far[next] == NONE && pit.isOpen(next)) {
+                    far[next] = far[place] + 1;
+                    queue[end] = next;
+                    end++;
+                }
+            }
+            return end;
         }
     }
 
@@ -1150,7 +1145,7 @@ public final class DarkMine {
             trial.copy(pit);
             trial.cells[place] = CURTAINED;
             works.enter(ground, trial, ground.reach);
-            works.passShifts(n);
+            works.pass(n);
             int left = trial.wholeWorth();
             if (left > shadeWorth) {
                 shadePlace = place;
@@ -1168,17 +1163,13 @@ public final class DarkMine {
             changeGrades = gradesBehind(ground, pit, n, 0, 0);
             for (int row = 0; row < ground.planRows; row++) {
                 for (int other = row + 1; other < ground.planRows; other++) {
-                    tryChange(ground, pit, n, row, other);
+                    int grades = gradesBehind(ground, pit, n, row, other);
+                    if (grades > changeGrades) {
+                        changeRow = row;
+                        changeOther = other;
+                        changeGrades = grades;
+                    }
                 }
-            }
-        }
-
-        private void tryChange(Ground ground, Pit pit, int n, int row, int other) {
-            int grades = gradesBehind(ground, pit, n, row, other);
-            if (grades > changeGrades) {
-                changeRow = row;
-                changeOther = other;
-                changeGrades = grades;
             }
         }
 
@@ -1186,7 +1177,7 @@ public final class DarkMine {
             trial.copy(pit);
             trial.changeRows(row, other);
             works.enter(ground, trial, ground.reach);
-            works.passShifts(n);
+            works.pass(n);
             return trial.tubGrades();
         }
 
@@ -1194,9 +1185,8 @@ public final class DarkMine {
             int cells = ground.columns * ground.rows;
             int calm = openBehind(ground, pit, NONE, place);
             int count = calm * cells * (100 - ground.quake);
-            for (int row = 0; row < ground.rows; row++) {
-                for (int column = 0; column < ground.columns; column++) {
-                    int quaked = ground.placeOf(column, row);
+            for (int quaked = PLACE_OF_FIRST; quaked < ground.endOfPlaces(); quaked++) {
+                if (pit.cells[quaked] != WALL) {
                     int opened = pit.isOpen(quaked) ? openBehind(ground, pit, quaked, place) : calm;
                     count += opened * ground.quake;
                 }
@@ -1208,7 +1198,7 @@ public final class DarkMine {
             trial.copy(pit);
             works.enter(ground, trial, ground.reach);
             works.closeCell(quaked);
-            works.passShift();
+            works.pass(1);
             return trial.isOpen(place) ? 1 : 0;
         }
     }
@@ -1223,7 +1213,7 @@ public final class DarkMine {
         private final int[] rows = new int[FELT_BYTES * FELT_MOST];
         private final Pit[] pits = new Pit[REACHES];
         private final int[] tally = new int[SIGHTS];
-        private boolean told;
+        boolean isTold;
         int count;
         int tellingShifts = NONE;
         int tellingPlace = NONE;
@@ -1237,7 +1227,7 @@ public final class DarkMine {
         }
 
         void forget() {
-            told = false;
+            isTold = false;
         }
 
         boolean take(Ground ground, Tape tape) {
@@ -1288,7 +1278,7 @@ public final class DarkMine {
                 if (!agreesBehind(ground, trial, n)) {
                     return false;
                 }
-                works.passShift();
+                works.pass(1);
             }
             return true;
         }
@@ -1308,24 +1298,20 @@ public final class DarkMine {
             return true;
         }
 
-        void seekTelling(Ground ground, Pit pit) {
-            if (told) {
-                return;
-            }
-            told = true;
+        void seekTelling(Ground ground, Pit pit, int bits) {
+            isTold = true;
             tellingPlace = NONE;
-            int bits = reachBits(ground, pit);
+            tellingLeft = REACHES + 1;
             if (bits == 0) {
                 return;
             }
             for (int reach = 0; reach < REACHES; reach++) {
                 pits[reach].copy(pit);
             }
-            tellingLeft = REACHES + 1;
             int last = Math.min(FEEL_AHEAD_MOST, SHIFT_LAST - pit.shift);
             for (int n = 1; n <= last; n++) {
                 passAll(ground, bits);
-                tryAllCells(ground, bits, n);
+                tryAllCells(ground, pit, bits, n);
             }
         }
 
@@ -1333,21 +1319,18 @@ public final class DarkMine {
             for (int reach = 0; reach < REACHES; reach++) {
                 if ((bits >> reach & 1) == 1) {
                     works.enter(ground, pits[reach], reach);
-                    works.passShift();
+                    works.pass(1);
                 }
             }
         }
 
-        private void tryAllCells(Ground ground, int bits, int n) {
-            for (int row = 0; row < ground.rows; row++) {
-                for (int column = 0; column < ground.columns; column++) {
-                    int place = ground.placeOf(column, row);
-                    int left = mostLeft(bits, place);
-                    if (left < tellingLeft) {
-                        tellingShifts = n;
-                        tellingPlace = place;
-                        tellingLeft = left;
-                    }
+        private void tryAllCells(Ground ground, Pit pit, int bits, int n) {
+            for (int place = PLACE_OF_FIRST; place < ground.endOfPlaces(); place++) {
+                int left = pit.cells[place] == WALL ? tellingLeft : mostLeft(bits, place);
+                if (left < tellingLeft) {
+                    tellingShifts = n;
+                    tellingPlace = place;
+                    tellingLeft = left;
                 }
             }
         }
@@ -1367,83 +1350,87 @@ public final class DarkMine {
         }
     }
 
-    /** The diggings that are told as KEPT, from the oldest on. */
-    private static final class Kept {
-        final int[] parts = new int[KEPT_PARTS * KEPT_MOST];
-        int count;
-
-        void put(int shift, int miner, int cell, int grade) {
-            if (count == KEPT_MOST) {
-                System.arraycopy(parts, KEPT_PARTS, parts, 0, KEPT_PARTS * (KEPT_MOST - 1));
-                count--;
-            }
-            int at = KEPT_PARTS * count;
-            parts[at] = shift;
-            parts[at + 1] = miner;
-            parts[at + 2] = cell;
-            parts[at + 3] = grade;
-            count++;
-        }
-
-        void copy(Kept other) {
-            count = other.count;
-            System.arraycopy(other.parts, 0, parts, 0, KEPT_PARTS * other.count);
-        }
-    }
-
-    /** How all was ahead of each of the last ACTS, in a ring. */
+    /** What is told as KEPT, from the oldest on; how all was ahead of each of the last ACTS, in a ring. */
     private static final class History {
-        private final Pit[] pits = new Pit[ACTS_MOST];
-        private final Kept[] logs = new Kept[ACTS_MOST];
+        final int[] keptParts = new int[KEPT_PARTS * KEPT_MOST];
+        int keptCount;
+        int acts;
         private int next;
-        int count;
+        private final Pit[] pits = new Pit[ACTS_MOST];
+        private final int[][] keptAhead = new int[ACTS_MOST][KEPT_PARTS * KEPT_MOST];
+        private final int[] keptCountAhead = new int[ACTS_MOST];
 
         History() {
             for (int k = 0; k < ACTS_MOST; k++) {
                 pits[k] = new Pit();
-                logs[k] = new Kept();
             }
         }
 
-        void put(Pit pit, Kept log) {
-            pits[next].copy(pit);
-            logs[next].copy(log);
-            next = (next + 1) % ACTS_MOST;
-            count = Math.min(ACTS_MOST, count + 1);
+        void clear() {
+            keptCount = 0;
+            acts = 0;
         }
 
-        boolean takeBack(Pit pit, Kept log) {
-            if (count == 0) {
+        void keep(int shift, int miner, int cell, int grade) {
+            if (keptCount == KEPT_MOST) {
+                System.arraycopy(keptParts, KEPT_PARTS, keptParts, 0, KEPT_PARTS * (KEPT_MOST - 1));
+                keptCount--;
+            }
+            int at = KEPT_PARTS * keptCount;
+            keptParts[at] = shift;
+            keptParts[at + 1] = miner;
+            keptParts[at + 2] = cell;
+            keptParts[at + 3] = grade;
+            keptCount++;
+        }
+
+        void put(Pit pit) {
+            pits[next].copy(pit);
+            System.arraycopy(keptParts, 0, keptAhead[next], 0, KEPT_PARTS * keptCount);
+            keptCountAhead[next] = keptCount;
+            next = (next + 1) % ACTS_MOST;
+            acts = Math.min(ACTS_MOST, acts + 1);
+        }
+
+        boolean takeBack(Pit pit) {
+            if (acts == 0) {
                 return false;
             }
+            acts--;
             next = (next + ACTS_MOST - 1) % ACTS_MOST;
-            count--;
             pit.copy(pits[next]);
-            log.copy(logs[next]);
+            keptCount = keptCountAhead[next];
+            System.arraycopy(keptAhead[next], 0, keptParts, 0, KEPT_PARTS * keptCount);
             return true;
         }
     }
 
-    /** AN IMAGE: written, and read from a tape. */
+    /** AN IMAGE: written, and read from the tape. */
     private static final class Image {
+        private static final int SUM_AT_FIRST = 233;
+
         final int[] bytes = new int[IMAGE_MOST];
         int length;
+        private final Tape tape;
         private int sum;
-        /* The reading: what is still to come of the tape, and whether all was as it may be. */
-        private Tape tape = null;
+        /* The reading: where the next byte is, and whether all ahead of it was as it may be. */
         private int at;
         private boolean fits;
 
+        Image(Tape theTape) {
+            tape = theTape;
+        }
+
         void write(Ground ground, Pit pit) {
             length = 0;
-            sum = 233;
+            sum = SUM_AT_FIRST;
             put(pit.shift >> 8);
             put(pit.shift & 255);
             put(pit.purse >> 16);
             put(pit.purse >> 8 & 255);
             put(pit.purse & 255);
             for (int row = 0; row < ground.rows; row++) {
-                putAll(pit.cells, ground.placeOf(0, row), ground.columns);
+                putAll(pit.cells, 8 * row + PLACE_OF_FIRST, ground.columns);
             }
             putAll(pit.hurts, 0, ground.miners);
             for (int row = 0; row < ground.planRows; row++) {
@@ -1471,10 +1458,9 @@ public final class DarkMine {
         }
 
         /** Whether the tape is AN IMAGE of this MINE: into is as it tells then, and free if not. */
-        boolean tellsPit(Ground ground, Tape newTape, Pit into) {
-            tape = newTape;
+        boolean tellsPit(Ground ground, Pit into) {
             at = 0;
-            sum = 233;
+            sum = SUM_AT_FIRST;
             fits = true;
             into.begin(ground);
             into.shift = next(255) << 8;
@@ -1493,15 +1479,17 @@ public final class DarkMine {
         }
 
         private void takeCells(Ground ground, Pit into) {
-            for (int row = 0; row < ground.rows; row++) {
-                for (int column = 0; column < ground.columns; column++) {
-                    int place = ground.placeOf(column, row);
-                    int told = next(OPEN);
-                    boolean canBe = place == ground.shaftPlace()
-                        ? told == OPEN : told <= GRADE_MOST || told >= CURTAINED;
-                    fits = fits && canBe;
-                    into.cells[place] = told;
+            for (int place = PLACE_OF_FIRST; place < ground.endOfPlaces(); place++) {
+                if (into.cells[place] == WALL) {
+                    continue;
                 }
+                int told = next(OPEN);
+                if (place == ground.shaftPlace()) {
+                    fits = fits && told == OPEN;
+                } else {
+                    fits = fits && (told <= GRADE_MOST || told >= CURTAINED);
+                }
+                into.cells[place] = told;
             }
         }
 
@@ -1521,7 +1509,7 @@ public final class DarkMine {
 
         /** The next byte; 0 where there is none, or it is above most, and then the tape does not fit. */
         private int next(int most) {
-            if (tape == null || at >= tape.length || tape.bytes[at] > most) {
+            if (at >= tape.length || tape.bytes[at] > most) {
                 fits = false;
                 return 0;
             }
@@ -1529,6 +1517,137 @@ public final class DarkMine {
             at++;
             sum = (5 * sum + octet) % 251;
             return octet;
+        }
+    }
+
+    /** The words, numbers and signs of a text in their order, and its end. */
+    private static final class Words {
+        static final int END = 0;
+        static final int OWN = 1;
+        static final int NAME = 2;
+        static final int NUMBER = 3;
+        static final int SIGN = 4;
+        static final int WRONG = 5;
+
+        private static final int DIGITS_MOST = 4;
+        private static final int OWN_WORDS_COUNT = 27;
+        /* Six places each; the number of an OWN WORD is its row. */
+        private static final String OWN_WORDS =
+            "seam  by    shaft reach quake grade miner dig   at    order tubs  pays  spoilsfalls gets  depth shift far   open  lit   if    or    and   not   all   min   max   ";
+
+        final int[] kinds = new int[TAPE_MOST + 1];
+        final int[] starts = new int[TAPE_MOST + 1];
+        /* Of an OWN WORD its number, of a NAME its letters, of a WRONG one the place that is wrong. */
+        final int[] values = new int[TAPE_MOST + 1];
+        private int count;
+        /* Where the latest word or number ended: no other one may begin there. */
+        private int plainEnd;
+
+        void split(Tape tape) {
+            count = 0;
+            plainEnd = NONE;
+            int at = 0;
+            for (int k = 0; k < TAPE_MOST && at < tape.length; k++) {
+                int octet = tape.bytes[at];
+                if (isLetter(octet)) {
+                    at = addWord(tape, at);
+                } else if (isDigit(octet)) {
+                    at = addNumber(tape, at);
+                } else {
+                    if (octet != ' ' && octet != '\n') {
+                        add(SIGN, at, octet);
+                    }
+                    at++;
+                }
+            }
+            add(END, tape.length, 0);
+        }
+
+        private int addWord(Tape tape, int start) {
+            int end = start;
+            while (end < tape.length && isLetter(tape.bytes[end])) {
+                end++;
+            }
+            if (!addIfWrong(start, end, NAME_LETTERS)) {
+                int own = ownWord(tape, start, end);
+                if (own == NONE) {
+                    add(NAME, start, lettersOf(tape, start, end));
+                } else {
+                    add(OWN, start, own);
+                }
+            }
+            plainEnd = end;
+            return end;
+        }
+
+        private int addNumber(Tape tape, int start) {
+            int end = start;
+            while (end < tape.length && isDigit(tape.bytes[end])) {
+                end++;
+            }
+            if (!addIfWrong(start, end, DIGITS_MOST)) {
+                int number = 0;
+                for (int k = start; k < end; k++) {
+                    number = 10 * number + tape.bytes[k] - '0';
+                }
+                add(NUMBER, start, number);
+            }
+            plainEnd = end;
+            return end;
+        }
+
+        private boolean addIfWrong(int start, int end, int most) {
+            if (end - start > most) {
+                add(WRONG, start, start + most);
+                return true;
+            }
+            if (start == plainEnd) {
+                add(WRONG, start, start);
+                return true;
+            }
+            return false;
+        }
+
+        private void add(int kind, int start, int value) {
+            if (count <= TAPE_MOST) {
+                kinds[count] = kind;
+                starts[count] = start;
+                values[count] = value;
+                count++;
+            }
+        }
+
+        private static int lettersOf(Tape tape, int start, int end) {
+            int letters = 0;
+            for (int k = 0; k < NAME_LETTERS; k++) {
+                int letter = start + k < end ? tape.bytes[start + k] - 'a' + 1 : 0;
+                letters = 27 * letters + letter;
+            }
+            return letters;
+        }
+
+        private static int ownWord(Tape tape, int start, int end) {
+            for (int word = 0; word < OWN_WORDS_COUNT; word++) {
+                int same = 0;
+                for (int k = 0; k < NAME_LETTERS; k++) {
+                    int letter = start + k < end ? tape.bytes[start + k] : ' ';
+                    if (letter == OWN_WORDS.charAt(NAME_LETTERS * word + k)) {
+                        same++;
+                    }
+                }
+                if (same == NAME_LETTERS) {
+                    return word;
+                }
+            }
+            return NONE;
+        }
+
+        private static boolean isLetter(int octet) {
+            return octet >= 'a' && octet <= 'z';
+        }
+
+        private static boolean isDigit(int octet) {
+            return octet >= '0' && octet <= '9';
         }
     }
 
@@ -1541,20 +1660,8 @@ public final class DarkMine {
         private static final int FAULT_TOO_DEEP = 5;
         private static final int FAULT_TOO_MANY = 6;
 
-        private static final int DIGITS_MOST = 4;
         private static final int OPEN_MOST = 7;
 
-        /* The kinds of what stands next. */
-        private static final int END = 0;
-        private static final int WORD = 1;
-        private static final int NUMBER = 2;
-        private static final int SIGN = 3;
-        private static final int WRONG = 4;
-
-        /* The OWN WORDS, six places each; a word's number is its row. */
-        private static final String OWN_WORDS =
-            "seam  by    shaft reach quake grade miner dig   at    order tubs  pays  spoilsfalls gets  depth shift far   open  lit   if    or    and   not   all   min   max   ";
-        private static final int OWN_WORD_COUNT = 27;
         private static final int OWN_SEAM = 0;
         private static final int OWN_BY = 1;
         private static final int OWN_SHAFT = 2;
@@ -1585,56 +1692,53 @@ public final class DarkMine {
 
         int fault;
         int faultAt = NONE;
-        private Tape tape = null;
-        private Ground ground = null;
-        private int at;
-        private int stepCount;
-        private int rule;
-        /* What stands next is looked at no sooner than it is asked for: the FAULT ahead of it is first. */
-        private boolean looked;
-        private int kind;
-        private int from;
+        private final Words words = new Words();
+        private Ground ground;
+        private int next;
+        /* Of the number or the NAME that was taken last. */
         private int value;
-        private int own;
+        private int rule;
+        private int stepCount;
+
+        Reader(Ground firstGround) {
+            ground = firstGround;
+        }
 
         /** How many STATEMENTS; NONE with a FAULT. */
-        int read(Tape newTape, Ground newGround) {
-            tape = newTape;
+        int read(Tape tape, Ground newGround) {
             ground = newGround;
             ground.clear();
             fault = 0;
             faultAt = NONE;
-            at = 0;
+            next = 0;
             stepCount = 0;
-            looked = false;
-            kind = END;
-            int statements = 0;
-            for (int k = 0; k <= STATEMENTS_MOST; k++) {
-                skipBlanks();
-                if (at >= tape.length && statements > 0) {
+            words.split(tape);
+            for (int statements = 0; statements <= STATEMENTS_MOST; statements++) {
+                if (statements > 0 && words.kinds[next] == Words.END) {
                     return statements;
                 }
                 if (!readStatement(statements)) {
                     return NONE;
                 }
-                statements++;
             }
             return NONE;
         }
 
         private boolean readStatement(int statements) {
             if (statements == STATEMENTS_MOST) {
-                return failAt(FAULT_TOO_MANY, at);
+                return fail(FAULT_TOO_MANY);
             }
-            look();
-            if (kind != WORD || (own == OWN_SEAM) != (statements == 0)) {
+            if (isOwn(OWN_SEAM) != (statements == 0)) {
                 return fail(FAULT_BYTE);
             }
-            return readStatementOf(own) && takeSign(';');
+            return readByFirstWord() && takeSign(';');
         }
 
-        private boolean readStatementOf(int word) {
-            switch (word) {
+        private boolean readByFirstWord() {
+            if (words.kinds[next] != Words.OWN) {
+                return fail(FAULT_BYTE);
+            }
+            switch (words.values[next]) {
                 case OWN_SEAM: return readSeam();
                 case OWN_SHAFT: return readShaft();
                 case OWN_REACH: return readReach();
@@ -1656,7 +1760,7 @@ public final class DarkMine {
                 return false;
             }
             int columns = value;
-            if (!takeWord(OWN_BY) || !takeNumber(3, 7)) {
+            if (!takeOwn(OWN_BY) || !takeNumber(3, 7)) {
                 return false;
             }
             ground.columns = columns;
@@ -1720,7 +1824,7 @@ public final class DarkMine {
             }
             pass();
             int miner = takeMiner();
-            if (miner == NONE || !takeWord(OWN_AT)) {
+            if (miner == NONE || !takeOwn(OWN_AT)) {
                 return false;
             }
             int place = takeCell();
@@ -1743,15 +1847,15 @@ public final class DarkMine {
                 return false;
             }
             ground.orderNames[order] = value;
-            if (!takeWord(OWN_GRADE) || !takeNumber(0, GRADE_MOST)) {
+            if (!takeOwn(OWN_GRADE) || !takeNumber(0, GRADE_MOST)) {
                 return false;
             }
             ground.orderGrades[order] = value;
-            if (!takeWord(OWN_TUBS) || !takeNumber(1, 9)) {
+            if (!takeOwn(OWN_TUBS) || !takeNumber(1, 9)) {
                 return false;
             }
             ground.orderTubs[order] = value;
-            if (!takeWord(OWN_PAYS) || !takeNumber(0, 999)) {
+            if (!takeOwn(OWN_PAYS) || !takeNumber(0, 999)) {
                 return false;
             }
             ground.orderPays[order] = value;
@@ -1765,52 +1869,39 @@ public final class DarkMine {
             }
             pass();
             rule = newRule;
-            int begin = stepCount;
+            ground.ruleFrom[rule] = stepCount;
             boolean good = rule == FALLS ? readTest(0) : readSum(0);
-            if (good) {
-                ground.ruleFrom[newRule] = begin;
-                ground.ruleEnd[newRule] = stepCount;
-            }
+            ground.ruleEnd[rule] = stepCount;
             return good;
         }
 
         /* From here on open tells how many of ( [ not are open: OPEN_MOST bounds how deep the calls go. */
 
         private boolean readTest(int open) {
-            if (!readBoth(open)) {
-                return false;
-            }
-            for (int k = 0; k < TAPE_MOST && isOwn(OWN_OR); k++) {
+            boolean good = readBoth(open);
+            for (int k = 0; k < TAPE_MOST && good && isOwn(OWN_OR); k++) {
                 pass();
-                if (!readBoth(open)) {
-                    return false;
-                }
+                good = readBoth(open);
                 put(STEP_OR);
             }
-            return true;
+            return good;
         }
 
         private boolean readBoth(int open) {
-            if (!readFact(open)) {
-                return false;
-            }
-            for (int k = 0; k < TAPE_MOST && isOwn(OWN_AND); k++) {
+            boolean good = readFact(open);
+            for (int k = 0; k < TAPE_MOST && good && isOwn(OWN_AND); k++) {
                 pass();
-                if (!readFact(open)) {
-                    return false;
-                }
+                good = readFact(open);
                 put(STEP_AND);
             }
-            return true;
+            return good;
         }
 
         private boolean readFact(int open) {
             if (isOwn(OWN_NOT)) {
-                if (!passOpening(open) || !readFact(open + 1)) {
-                    return false;
-                }
+                boolean good = passOpening(open) && readFact(open + 1);
                 put(STEP_NOT);
-                return true;
+                return good;
             }
             if (isSign('[')) {
                 return passOpening(open) && readTest(open + 1) && takeSign(']');
@@ -1832,52 +1923,36 @@ public final class DarkMine {
                 return fail(FAULT_BYTE);
             }
             pass();
-            if (!readSum(open)) {
-                return false;
-            }
+            boolean good = readSum(open);
             put(step);
-            return true;
+            return good;
         }
 
         private boolean readSum(int open) {
-            if (!readProduct(open)) {
-                return false;
-            }
+            boolean good = readProduct(open);
             int step = sumStep();
-            for (int k = 0; k < TAPE_MOST && step != 0; k++) {
+            for (int k = 0; k < TAPE_MOST && good && step != 0; k++) {
                 pass();
-                if (!readProduct(open)) {
-                    return false;
-                }
+                good = readProduct(open);
                 put(step);
                 step = sumStep();
             }
-            return true;
+            return good;
         }
 
         private boolean readProduct(int open) {
-            if (!readPart(open)) {
-                return false;
-            }
+            boolean good = readPart(open);
             int step = productStep();
-            for (int k = 0; k < TAPE_MOST && step != 0; k++) {
+            for (int k = 0; k < TAPE_MOST && good && step != 0; k++) {
                 pass();
-                if (!readPart(open)) {
-                    return false;
-                }
+                good = readPart(open);
                 put(step);
                 step = productStep();
             }
-            return true;
+            return good;
         }
 
         private boolean readPart(int open) {
-            look();
-            if (kind == NUMBER) {
-                put(value);
-                pass();
-                return true;
-            }
             if (isSign('(')) {
                 return passOpening(open) && readSum(open + 1) && takeSign(')');
             }
@@ -1890,6 +1965,11 @@ public final class DarkMine {
             if (isOwn(OWN_MAX)) {
                 return readPair(open, STEP_MAX);
             }
+            if (words.kinds[next] == Words.NUMBER) {
+                put(words.values[next]);
+                pass();
+                return true;
+            }
             int step = factStep();
             if (step == 0) {
                 return fail(FAULT_BYTE);
@@ -1901,26 +1981,19 @@ public final class DarkMine {
 
         private boolean readChoice(int open) {
             pass();
-            if (!takeOpening(open) || !readTest(open + 1) || !takeSign(',')) {
-                return false;
-            }
-            if (!readSum(open + 1) || !takeSign(',') || !readSum(open + 1) || !takeSign(')')) {
-                return false;
-            }
+            boolean good = takeOpening(open) && readTest(open + 1)
+                && takeSign(',') && readSum(open + 1)
+                && takeSign(',') && readSum(open + 1) && takeSign(')');
             put(STEP_CHOOSE);
-            return true;
+            return good;
         }
 
         private boolean readPair(int open, int step) {
             pass();
-            if (!takeOpening(open) || !readSum(open + 1) || !takeSign(',')) {
-                return false;
-            }
-            if (!readSum(open + 1) || !takeSign(')')) {
-                return false;
-            }
+            boolean good = takeOpening(open) && readSum(open + 1)
+                && takeSign(',') && readSum(open + 1) && takeSign(')');
             put(step);
-            return true;
+            return good;
         }
 
         private boolean takeOpening(int open) {
@@ -1963,11 +2036,10 @@ public final class DarkMine {
         }
 
         private int factStep() {
-            look();
-            if (kind != WORD) {
+            if (words.kinds[next] != Words.OWN) {
                 return 0;
             }
-            switch (own) {
+            switch (words.values[next]) {
                 case OWN_GRADE: return STEP_GRADE;
                 case OWN_DEPTH: return STEP_DEPTH;
                 case OWN_SHIFT: return STEP_SHIFT;
@@ -1997,10 +2069,10 @@ public final class DarkMine {
         }
 
         private boolean takeNumber(int least, int most) {
-            look();
-            if (kind != NUMBER) {
+            if (words.kinds[next] != Words.NUMBER) {
                 return fail(FAULT_BYTE);
             }
+            value = words.values[next];
             if (value < least || value > most) {
                 return fail(FAULT_NUMBER);
             }
@@ -2009,10 +2081,10 @@ public final class DarkMine {
         }
 
         private boolean takeNewName() {
-            look();
-            if (kind != WORD || own != NONE) {
+            if (words.kinds[next] != Words.NAME) {
                 return fail(FAULT_BYTE);
             }
+            value = words.values[next];
             if (ground.hasName(value)) {
                 return fail(FAULT_NAME_AGAIN);
             }
@@ -2021,12 +2093,11 @@ public final class DarkMine {
         }
 
         private int takeMiner() {
-            look();
-            if (kind != WORD || own != NONE) {
+            if (words.kinds[next] != Words.NAME) {
                 fail(FAULT_BYTE);
                 return NONE;
             }
-            int miner = ground.minerNamed(value);
+            int miner = ground.minerNamed(words.values[next]);
             if (miner == NONE) {
                 fail(FAULT_NO_MINER);
                 return NONE;
@@ -2035,7 +2106,7 @@ public final class DarkMine {
             return miner;
         }
 
-        private boolean takeWord(int word) {
+        private boolean takeOwn(int word) {
             if (!isOwn(word)) {
                 return fail(FAULT_BYTE);
             }
@@ -2052,128 +2123,24 @@ public final class DarkMine {
         }
 
         private boolean isOwn(int word) {
-            look();
-            return kind == WORD && own == word;
+            return words.kinds[next] == Words.OWN && words.values[next] == word;
         }
 
         private boolean isSign(int sign) {
-            look();
-            return kind == SIGN && value == sign;
-        }
-
-        private boolean fail(int newFault) {
-            return failAt(newFault, from);
-        }
-
-        private boolean failAt(int newFault, int place) {
-            if (fault == 0) {
-                fault = newFault;
-                faultAt = place;
-            }
-            return false;
+            return words.kinds[next] == Words.SIGN && words.values[next] == sign;
         }
 
         private void pass() {
-            looked = false;
-        }
-
-        private void look() {
-            if (looked) {
-                return;
-            }
-            looked = true;
-            boolean behindPlain = kind == WORD || kind == NUMBER;
-            int behind = at;
-            skipBlanks();
-            from = at;
-            if (at >= tape.length) {
-                kind = END;
-            } else if (isLetter(at)) {
-                lookAtWord();
-            } else if (isDigit(at)) {
-                lookAtNumber();
-            } else {
-                kind = SIGN;
-                value = tape.bytes[at];
-                at++;
-            }
-            if (behindPlain && behind == from && (kind == WORD || kind == NUMBER)) {
-                kind = WRONG;
-                fail(FAULT_BYTE);
+            if (words.kinds[next] != Words.END) {
+                next++;
             }
         }
 
-        private void lookAtWord() {
-            kind = WORD;
-            int letters = 0;
-            value = 0;
-            for (int k = from; k < tape.length && isLetter(k); k++) {
-                if (letters == NAME_LETTERS) {
-                    kind = WRONG;
-                    failAt(FAULT_BYTE, k);
-                    return;
-                }
-                value = 27 * value + tape.bytes[k] - 'a' + 1;
-                letters++;
-            }
-            at = from + letters;
-            for (int k = letters; k < NAME_LETTERS; k++) {
-                value *= 27;
-            }
-            own = ownWord(letters);
-        }
-
-        private void lookAtNumber() {
-            kind = NUMBER;
-            int digits = 0;
-            value = 0;
-            for (int k = from; k < tape.length && isDigit(k); k++) {
-                if (digits == DIGITS_MOST) {
-                    kind = WRONG;
-                    failAt(FAULT_BYTE, k);
-                    return;
-                }
-                value = 10 * value + tape.bytes[k] - '0';
-                digits++;
-            }
-            at = from + digits;
-        }
-
-        private int ownWord(int letters) {
-            for (int word = 0; word < OWN_WORD_COUNT; word++) {
-                if (isOwnWord(word, letters)) {
-                    return word;
-                }
-            }
-            return NONE;
-        }
-
-        private boolean isOwnWord(int word, int letters) {
-            for (int k = 0; k < NAME_LETTERS; k++) {
-                int letter = k < letters ? tape.bytes[from + k] : ' ';
-                if (letter != OWN_WORDS.charAt(NAME_LETTERS * word + k)) {
-                    return false;
-                }
-            }
-            return true;
-        }
-
-        private void skipBlanks() {
-            for (int k = at; k < tape.length && isBlank(k); k++) {
-                at = k + 1;
-            }
-        }
-
-        private boolean isBlank(int k) {
-            return tape.bytes[k] == ' ' || tape.bytes[k] == '\n';
-        }
-
-        private boolean isLetter(int k) {
-            return tape.bytes[k] >= 'a' && tape.bytes[k] <= 'z';
-        }
-
-        private boolean isDigit(int k) {
-            return tape.bytes[k] >= '0' && tape.bytes[k] <= '9';
+        private boolean fail(int newFault) {
+            boolean within = newFault == FAULT_BYTE && words.kinds[next] == Words.WRONG;
+            fault = newFault;
+            faultAt = within ? words.values[next] : words.starts[next];
+            return false;
         }
     }
 }
