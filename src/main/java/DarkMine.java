@@ -363,7 +363,7 @@ public final class DarkMine {
 
     public boolean hang(int column, int row, int on) {
         int place = ground.placeOf(column, row);
-        if (place == NONE || place == ground.shaftPlace() || on < 0 || on > 1) {
+        if (place == NONE || place == ground.shaftPlace || on < 0 || on > 1) {
             return no(3);
         }
         int ahead = on == 1 ? OPEN : CURTAINED;
@@ -638,7 +638,7 @@ public final class DarkMine {
     private static final class Ground {
         int columns;
         int rows;
-        int shaft;
+        int shaftPlace = NONE;
         int reach;
         int quake;
         final int[] grades = new int[PLACES];
@@ -660,7 +660,7 @@ public final class DarkMine {
         void clear() {
             columns = 0;
             rows = 0;
-            shaft = 0;
+            shaftPlace = NONE;
             reach = 3;
             quake = 0;
             Arrays.fill(grades, 5);
@@ -716,10 +716,6 @@ public final class DarkMine {
             return 8 * row + column + PLACE_OF_FIRST;
         }
 
-        int shaftPlace() {
-            return placeOf(shaft, 0);
-        }
-
         /** Where the places of the seam end; among them are some that are WALL. */
         int endOfPlaces() {
             return 8 * rows + PLACE_OF_FIRST;
@@ -746,7 +742,7 @@ public final class DarkMine {
                 System.arraycopy(ground.grades, place, cells, place, ground.columns);
             }
             if (ground.hasSeam()) {
-                cells[ground.shaftPlace()] = OPEN;
+                cells[ground.shaftPlace] = OPEN;
             }
             Arrays.fill(hurts, 0);
             System.arraycopy(ground.planMiners, 0, planMiners, 0, PLAN_MOST);
@@ -980,13 +976,14 @@ public final class DarkMine {
             if (!pit.canBeDug(place)) {
                 return false;
             }
+            spreadLight();
             tellDigging(place);
             return rules.valueOf(ground, FALLS, 0) == 0;
         }
 
         /** Whether a quake at that CELL makes it SOLID: it does if it is OPEN and not the shaft's. */
         boolean closeCell(int place) {
-            if (place == NONE || place == ground.shaftPlace() || !pit.isOpen(place)) {
+            if (place == NONE || place == ground.shaftPlace || !pit.isOpen(place)) {
                 return false;
             }
             pit.cells[place] = 0;
@@ -998,6 +995,7 @@ public final class DarkMine {
         void pass(int n) {
             for (int k = 0; k < n; k++) {
                 dugMiner = NONE;
+                spreadLight();
                 digByPlan();
                 spreadLight();
                 spoilBesideLight();
@@ -1032,7 +1030,6 @@ public final class DarkMine {
         }
 
         private void tellDigging(int place) {
-            spreadLight();
             rules.grade = pit.cells[place];
             rules.depth = rowOf(place);
             rules.shift = pit.shift;
@@ -1075,7 +1072,7 @@ public final class DarkMine {
             stale = false;
             Arrays.fill(far, NONE);
             Arrays.fill(glow, DARK);
-            int start = ground.shaftPlace();
+            int start = ground.shaftPlace;
             if (start == NONE) {
                 return;
             }
@@ -1135,7 +1132,7 @@ public final class DarkMine {
             shadePlace = NONE;
             shadeWorth = NONE;
             for (int place = 0; place < PLACES; place++) {
-                if (pit.cells[place] == OPEN && place != ground.shaftPlace()) {
+                if (pit.cells[place] == OPEN && place != ground.shaftPlace) {
                     tryShade(ground, pit, n, place);
                 }
             }
@@ -1484,7 +1481,7 @@ public final class DarkMine {
                     continue;
                 }
                 int told = next(OPEN);
-                if (place == ground.shaftPlace()) {
+                if (place == ground.shaftPlace) {
                     fits = fits && told == OPEN;
                 } else {
                     fits = fits && (told <= GRADE_MOST || told >= CURTAINED);
@@ -1717,7 +1714,7 @@ public final class DarkMine {
                 if (statements > 0 && words.kinds[next] == Words.END) {
                     return statements;
                 }
-                if (!readStatement(statements)) {
+                if (!readStatement(statements) || !takeSign(';')) {
                     return NONE;
                 }
             }
@@ -1728,14 +1725,7 @@ public final class DarkMine {
             if (statements == STATEMENTS_MOST) {
                 return fail(FAULT_TOO_MANY);
             }
-            if (isOwn(OWN_SEAM) != (statements == 0)) {
-                return fail(FAULT_BYTE);
-            }
-            return readByFirstWord() && takeSign(';');
-        }
-
-        private boolean readByFirstWord() {
-            if (words.kinds[next] != Words.OWN) {
+            if (words.kinds[next] != Words.OWN || isOwn(OWN_SEAM) != (statements == 0)) {
                 return fail(FAULT_BYTE);
             }
             switch (words.values[next]) {
@@ -1765,6 +1755,7 @@ public final class DarkMine {
             }
             ground.columns = columns;
             ground.rows = value;
+            ground.shaftPlace = ground.placeOf(0, 0);
             return true;
         }
 
@@ -1773,7 +1764,7 @@ public final class DarkMine {
             if (!takeNumber(0, ground.columns - 1)) {
                 return false;
             }
-            ground.shaft = value;
+            ground.shaftPlace = ground.placeOf(value, 0);
             return true;
         }
 
