@@ -935,14 +935,17 @@ public final class DarkMine {
         private static final int DARK = 1000;
 
         private final Rules rules = new Rules();
-        /* How FAR each place is; how far a LIT one is, DARK where it is not LIT. */
         private final int[] far = new int[PLACES];
-        private final int[] glow = new int[PLACES];
+        /* How FAR the nearest LIT CELL beside each place is; DARK without one. */
+        private final int[] beam = new int[PLACES];
+        /* The SOLID CELLS beside LIT ones: most SHIFTS change none of these, and need not seek them. */
+        private final int[] exposed = new int[PLACES];
+        private int exposedCount;
         private final int[] queue = new int[PLACES];
         private Ground ground;
         private Pit pit;
         private int reach;
-        /* Whether far and glow are no more what the pit's OPEN CELLS and curtains make them. */
+        /* Whether far, beam and exposed are no more what the OPEN CELLS and curtains make them. */
         private boolean stale;
         /* The digging of the latest SHIFT: no MINER without one, no GRADE where the CELL fell. */
         int dugMiner = NONE;
@@ -968,8 +971,8 @@ public final class DarkMine {
         }
 
         boolean isLit(int place) {
-            spreadLight();
-            return glow[place] < DARK;
+            int steps = farOf(place);
+            return steps != NONE && steps <= reach && pit.cells[place] == OPEN;
         }
 
         boolean isSafe(int place) {
@@ -998,7 +1001,7 @@ public final class DarkMine {
                 spreadLight();
                 digByPlan();
                 spreadLight();
-                spoilBesideLight();
+                spoilExposed();
                 pit.shift = Math.min(SHIFT_LAST, pit.shift + 1);
             }
         }
@@ -1034,31 +1037,19 @@ public final class DarkMine {
             rules.depth = rowOf(place);
             rules.shift = pit.shift;
             rules.open = pit.openBeside(place);
-            rules.lit = nearestGlow(place) < DARK ? 1 : 0;
+            rules.lit = beam[place] < DARK ? 1 : 0;
         }
 
-        private int nearestGlow(int place) {
-            int nearest = DARK;
-            for (int side : SIDES) {
-                nearest = Math.min(nearest, glow[place + side]);
-            }
-            return nearest;
-        }
-
-        private void spoilBesideLight() {
-            int end = ground.endOfPlaces();
-            for (int place = PLACE_OF_FIRST; place < end; place++) {
+        private void spoilExposed() {
+            for (int k = 0; k < exposedCount; k++) {
+                int place = exposed[k];
                 int grade = pit.cells[place];
                 /* GRADE 0 can't become less: the rule need not be worked out. */
-                if (grade == 0 || grade > GRADE_MOST) {
-                    continue;
-                }
-                int nearest = nearestGlow(place);
-                if (nearest < DARK) {
+                if (grade > 0) {
                     rules.grade = grade;
                     rules.depth = rowOf(place);
                     rules.shift = pit.shift;
-                    rules.far = nearest;
+                    rules.far = beam[place];
                     int loss = Math.max(0, rules.valueOf(ground, SPOILS, 1));
                     pit.cells[place] = Math.max(0, grade - loss);
                 }
@@ -1071,7 +1062,8 @@ public final class DarkMine {
             }
             stale = false;
             Arrays.fill(far, NONE);
-            Arrays.fill(glow, DARK);
+            Arrays.fill(beam, DARK);
+            exposedCount = 0;
             int start = ground.shaftPlace;
             if (start == NONE) {
                 return;
@@ -1081,15 +1073,31 @@ public final class DarkMine {
             int known = 1;
             for (int k = 0; k < known && k < PLACES; k++) {
                 int place = queue[k];
-                /* Behind a curtain it is dark, and no step leads out of its CELL. */
+                /* Where a curtain hangs it is dark, and no step leads out. */
                 if (pit.cells[place] == OPEN) {
-                    glow[place] = far[place] <= reach ? far[place] : DARK;
-                    known = stepOn(place, known);
+                    if (far[place] <= reach) {
+                        shineFrom(place);
+                    }
+                    known = stepFrom(place, known);
                 }
             }
         }
 
-        private int stepOn(int place, int known) {
+        /** The nearest CELLS come first, so that what another one lights already has it nearer. */
+        private void shineFrom(int place) {
+            for (int side : SIDES) {
+                int next = place + side;
+                if (beam[next] == DARK) {
+                    beam[next] = far[place];
+                    if (pit.isSolid(next)) {
+                        exposed[exposedCount] = next;
+                        exposedCount++;
+                    }
+                }
+            }
+        }
+
+        private int stepFrom(int place, int known) {
             int end = known;
             for (int side : SIDES) {
                 int next = place + side;
