@@ -840,7 +840,7 @@ public final class DarkMine {
     /** Works out a rule for one CELL, of which its fields tell. */
     private static final class Rules {
         private static final int VALUE_MOST = 1000000;
-        /* Seven that are open at once, each with five values waiting at most, stay far below it. */
+        /* Within seven that are open at once, and outside them, five values wait at most each: 41 do. */
         private static final int STACK_MOST = 64;
 
         int grade;
