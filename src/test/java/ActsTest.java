@@ -77,6 +77,9 @@ public final class ActsTest {
         CHECK.due("a tub of grade 0", CHECK.x.tubs(0), 1);
         CHECK.due("the other falls", CHECK.x.shifts(1), 0);
         CHECK.due("hurt are", CHECK.x.has(9), 2);
+        CHECK.mine("seam 3 by 3;reach 0;miner a;dig a at 0 1;dig a at 0 2;falls shift=1;");
+        CHECK.x.shifts(2);
+        CHECK.due("grade 0 in the dark", CHECK.x.cell(0, 2, 0), 0);
     }
 
     private static void fullTubs() {
@@ -143,6 +146,14 @@ public final class ActsTest {
         CHECK.due("the plan's next is cut off", CHECK.x.cell(3, 2, 1), 0);
         CHECK.due("one shift", CHECK.x.has(5), 2);
         CHECK.due("kept", CHECK.x.has(13), 1);
+        // what a quake cuts off is dark at once, and grade 0 in the dark too
+        CHECK.mine("seam 3 by 3;quake 50;miner a;dig a at 0 1;dig a at 0 2;dig a at 2 0;");
+        CHECK.x.shifts(2);
+        CHECK.due("beside light", CHECK.x.cell(1, 2, 0), 4);
+        CHECK.x.seed(2478);
+        CHECK.due("cut off", CHECK.x.chance(1), 1);
+        CHECK.due("no light", CHECK.x.cell(1, 2, 0), 4);
+        CHECK.due("no way", CHECK.x.cell(0, 2, 4), -1);
     }
 
     private static void hang() {

@@ -210,6 +210,10 @@ public final class AheadTest {
         CHECK.mine("seam 3 by 3;order a grade 0 tubs 1 pays 5;order b grade 0 tubs 1 pays 5;"
             + "order c grade 0 tubs 2 pays 10;order d grade 9 tubs 1 pays 1;");
         saleIs("the fewest", 4, 10, 0, 2, 0, 0, 0, 0, 0, 0, 0, 0, 0);
+        CHECK.mine("seam 3 by 3;order a grade 0 tubs 1 pays 5;order b grade 0 tubs 1 pays 6;"
+            + "order c grade 0 tubs 1 pays 6;order d grade 0 tubs 2 pays 11;");
+        saleIs("one more", 2, 6, 0, 1, 0, 0, 0, 0, 0, 0, 0, 0, 0);
+        saleIs("two tubs", 6, 12, 0, 1, 0, 0, 0, 0, 0, 0, 0, 0, 1);
     }
 
     private static void odds() {
@@ -292,6 +296,9 @@ public final class AheadTest {
         CHECK.due("felt stays", CHECK.x.reaches(), ALL_REACHES);
         at(998);
         CHECK.due("beyond shift 999", CHECK.x.reaches(), 0);
+        at(999);
+        felt(1, 0, 0, 0, 255);
+        CHECK.due("now, at shift 999", CHECK.x.reaches(), ALL_REACHES);
         CHECK.putText(REACHING);
         CHECK.x.mine();
         CHECK.due("of this mine", CHECK.x.reaches(), ALL_REACHES);

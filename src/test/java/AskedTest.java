@@ -56,6 +56,7 @@ public final class AskedTest {
             CHECK.due("letter(0, 1, " + k + ")", CHECK.x.letter(0, 1, k), want[k]);
             CHECK.due("letter(0, 0, " + k + ")", CHECK.x.letter(0, 0, k), k == 0 ? 1 : 0);
         }
+        CHECK.due("the first order's", CHECK.x.letter(1, 0, 0), 15);
         CHECK.due("an order's first", CHECK.x.letter(1, 1, 0), 16);
         CHECK.due("an order's second", CHECK.x.letter(1, 1, 1), 17);
         CHECK.due("an order's third", CHECK.x.letter(1, 1, 2), 0);
@@ -108,6 +109,10 @@ public final class AskedTest {
         CHECK.due("all fall now", CHECK.x.cell(0, 1, 5), 0);
         CHECK.x.shifts(1);
         CHECK.due("none falls now", CHECK.x.cell(1, 0, 5), 1);
+        CHECK.mine("seam 3 by 3;reach 0;miner a;dig a at 0 1;falls lit=1 and shift>0;");
+        CHECK.x.shifts(1);
+        CHECK.due("beside light", CHECK.x.cell(1, 0, 5), 0);
+        CHECK.due("beside a dark one", CHECK.x.cell(1, 1, 5), 1);
     }
 
     private static void hurt() {
@@ -239,6 +244,10 @@ public final class AskedTest {
         holds("not all or all", true);
         holds("not [all or all]", false);
         holds("not all and not all", false);
+        holds("not all and all", false);
+        holds("all and not all", false);
+        holds("all or not all", true);
+        holds("not all or not all", false);
         holds("1=2 or 2=2", true);
         holds("1=1 and 2=1", false);
         holds("not 1=2 and 2=2", true);

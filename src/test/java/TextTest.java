@@ -88,6 +88,7 @@ public final class TextTest {
         CHECK.dueAll("as at first", hasAll(), 4, 3, 0, 0, 0, 0, 1, 1, 0, 0, 0, 0, 55, 0, 0, 0, 77);
         CHECK.due("the last shaft counts", CHECK.x.cell(2, 0, 1), 1);
         CHECK.due("none is undone", CHECK.x.undo(), false);
+        hurtAndSoldNoMore();
         CHECK.mine("seam 3 by 3;grade 1 1 3;grade 1 1 8;grade 2 0 0;");
         CHECK.due("the last grade counts", CHECK.x.cell(1, 1, 0), 8);
         CHECK.due("grade 0", CHECK.x.cell(2, 0, 0), 0);
@@ -97,6 +98,21 @@ public final class TextTest {
         CHECK.mine("seam 3 by 3;" + "shaft 0;".repeat(79));
         CHECK.putText("seam 3 by 3;" + "shaft 0;".repeat(79) + " \n");
         CHECK.due("80 statements", CHECK.x.mine(), 80);
+    }
+
+    private static void hurtAndSoldNoMore() {
+        String text = "seam 3 by 3;miner a;dig a at 0 1;dig a at 0 2;falls shift=1;order o grade 0 tubs 1 pays 7;";
+        CHECK.mine(text);
+        CHECK.x.shifts(2);
+        CHECK.x.sell(0);
+        CHECK.x.send(0, 0, 2, 2);
+        CHECK.due("hurt", CHECK.x.hurt(0), 1);
+        CHECK.due("sold", CHECK.x.order(0, 3), 1);
+        CHECK.putText(text);
+        CHECK.x.mine();
+        CHECK.due("hurt no more", CHECK.x.hurt(0), 0);
+        CHECK.due("sold no more", CHECK.x.order(0, 3), 0);
+        CHECK.due("the plan as told", CHECK.x.plan(0, 1), 0);
     }
 
     private static int[] hasAll() {
