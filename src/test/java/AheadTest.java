@@ -336,5 +336,29 @@ public final class AheadTest {
         tellsIs("behind three shifts", 1, 25, 18);
         CHECK.x.undo();
         tellsIs("undone", 3, 25, 18);
+        anotherMine();
+    }
+
+    /** What was found ahead is found anew for another mine. */
+    private static void anotherMine() {
+        CHECK.mine("seam 3 by 3;grade 1 0 9;miner a;dig a at 0 1;dig a at 1 0;");
+        CHECK.x.change(1, 0);
+        CHECK.x.tells(0);
+        CHECK.putText(REACHING);
+        CHECK.x.mine();
+        changeIs("another mine", 1, -1, -1, -1);
+        tellsIs("another mine", 3, 25, 18);
+        CHECK.x.shifts(2);
+        CHECK.due("a cell", CHECK.x.shade(1, 1), 1);
+        CHECK.putText("seam 3 by 3;");
+        CHECK.x.mine();
+        shadeIs("another mine", 1, -1, -1, -1);
+        CHECK.mine(MINE);
+        int[] first = CHECK.image();
+        CHECK.x.shifts(3);
+        shadeIs("ahead of on()", 1, 0, 1, 30);
+        CHECK.put(first);
+        CHECK.x.on();
+        shadeIs("behind on()", 1, -1, -1, -1);
     }
 }

@@ -113,6 +113,11 @@ public final class AskedTest {
         CHECK.x.shifts(1);
         CHECK.due("beside light", CHECK.x.cell(1, 0, 5), 0);
         CHECK.due("beside a dark one", CHECK.x.cell(1, 1, 5), 1);
+        CHECK.mine("seam 3 by 3;miner a;dig a at 0 1;falls lit=1 and shift>0;");
+        CHECK.x.shifts(1);
+        CHECK.due("light", CHECK.x.cell(1, 1, 5), 0);
+        CHECK.x.hang(0, 1, 1);
+        CHECK.due("a curtain", CHECK.x.cell(1, 1, 5), 1);
     }
 
     private static void hurt() {
@@ -252,6 +257,9 @@ public final class AskedTest {
         holds("1=1 and 2=1", false);
         holds("not 1=2 and 2=2", true);
         holds("1+1=3-1", true);
+        CHECK.mine("seam 3 by 3;reach 0;miner a;miner b;dig a at 0 1;dig b at 0 2;falls if(all,lit,7)=0;");
+        CHECK.x.shifts(2);
+        CHECK.due("all in the dark", CHECK.x.hurt(1), 1);
     }
 
     private static void facts() {

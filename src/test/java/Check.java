@@ -52,13 +52,14 @@ final class Check {
         put(bytes);
     }
 
-    /** The text has that fault, or none (0, -1); a short seam stands ahead of it. */
+    /** The text has that fault, or none (0, -1). */
     void fault(String text, int kind, int place) {
         putText(text);
         int statements = x.mine();
-        due("mine() of " + text + " is refused", statements == DarkMine.NONE, kind != 0);
-        due("fault(0) of " + text, x.fault(0), kind);
-        due("fault(1) of " + text, x.fault(1), place);
+        String told = text.length() > 200 ? text.substring(0, 200) + " .." : text;
+        due("mine() of " + told + " is refused", statements == DarkMine.NONE, kind != 0);
+        due("fault(0) of " + told, x.fault(0), kind);
+        due("fault(1) of " + told, x.fault(1), place);
     }
 
     /** A fresh object with that mine. */

@@ -16,6 +16,7 @@ public final class TextTest {
         openAtOnce();
         tooMany();
         ruleWords();
+        fullTape();
         CHECK.end();
     }
 
@@ -133,6 +134,7 @@ public final class TextTest {
         CHECK.due("the last reach counts", CHECK.x.has(7), 2);
         CHECK.x.chance(40);
         CHECK.due("quake 0 without", CHECK.x.has(6), 5);
+        CHECK.due("quake 0 without, by odds", CHECK.x.odds(0, 4), 1500);
     }
 
     private static void faultAsked() {
@@ -246,6 +248,11 @@ public final class TextTest {
         CHECK.fault(SEAM + "falls not not not not not not not (1)=1;", 5, 46);
         CHECK.fault(SEAM + "falls not not not not not not (1)=(1);", 0, -1);
         CHECK.fault(SEAM + "falls [[[[[[if(1=1,1,2)=(3)]]]]]] and ((((((1))))))=1;", 0, -1);
+        for (String one : new String[] {"min(@,1)", "min(1,@)", "max(@,1)", "if(@=1,1,1)", "if(all,@,1)", "if(all,1,@)"}) {
+            CHECK.fault(SEAM + "gets (((((" + one.replace("@", "(1)") + ")))));", 0, -1);
+            int place = SEAM.length() + 5 + 5 + one.indexOf('@') + 1;
+            CHECK.fault(SEAM + "gets (((((" + one.replace("@", "((1))") + ")))));", 5, place);
+        }
         CHECK.fault(SEAM + "falls [[[[[[[if(", 5, 27);
         CHECK.fault(SEAM + "falls (((((((1 (", 1, 27);
     }
@@ -270,6 +277,17 @@ public final class TextTest {
         CHECK.fault(eighty + "reach 1;", 6, 644);
         CHECK.fault(eighty + " \nseam", 6, 646);
         CHECK.fault(eighty + " x", 6, 645);
+    }
+
+    private static void fullTape() {
+        String sum = "gets " + "1+".repeat(791) + "1";
+        CHECK.fault(SEAM + sum, 1, 1600);
+        CHECK.fault(SEAM + sum.substring(0, 1586) + "+;", 1, 1599);
+        CHECK.fault(SEAM + sum.substring(0, 1586) + " ;", 0, -1);
+        CHECK.fault(";".repeat(1600), 1, 0);
+        CHECK.fault(" ".repeat(1600), 1, 1600);
+        CHECK.fault("a".repeat(1600), 1, 6);
+        CHECK.fault(" ".repeat(1588) + SEAM, 0, -1);
     }
 
     private static void ruleWords() {
