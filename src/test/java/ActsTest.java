@@ -154,6 +154,11 @@ public final class ActsTest {
         CHECK.due("cut off", CHECK.x.chance(1), 1);
         CHECK.due("no light", CHECK.x.cell(1, 2, 0), 4);
         CHECK.due("no way", CHECK.x.cell(0, 2, 4), -1);
+        CHECK.mine("seam 3 by 3;quake 50;miner a;dig a at 0 1;dig a at 0 2;dig a at 2 2;dig a at 2 2;");
+        CHECK.x.shifts(2);
+        CHECK.x.seed(28);
+        CHECK.due("cut off in the second shift", CHECK.x.chance(2), 1);
+        CHECK.due("light in the first alone", CHECK.x.cell(1, 2, 0), 3);
     }
 
     private static void hang() {
@@ -244,6 +249,10 @@ public final class ActsTest {
         on(bytes);
         CHECK.due("99999 at most", CHECK.x.sell(1), 99999);
         CHECK.due("99999 still", CHECK.x.sell(0), 99999);
+        bytes[26] = 2;
+        on(bytes);
+        CHECK.x.sell(2);
+        CHECK.due("of grade 9", CHECK.x.tubs(9), 1);
     }
 
     private static void undo() {

@@ -113,6 +113,11 @@ public final class TextTest {
         CHECK.x.mine();
         CHECK.due("hurt no more", CHECK.x.hurt(0), 0);
         CHECK.due("sold no more", CHECK.x.order(0, 3), 0);
+        CHECK.x.shifts(1);
+        CHECK.due("a tub", CHECK.x.has(10), 1);
+        CHECK.putText(text);
+        CHECK.x.mine();
+        CHECK.due("no tubs", CHECK.x.has(10), 0);
         CHECK.due("the plan as told", CHECK.x.plan(0, 1), 0);
     }
 
