@@ -27,13 +27,6 @@ public final class ActsTest {
         CHECK.due("on()", CHECK.x.on(), true);
     }
 
-    private static void at(int shift) {
-        int[] bytes = CHECK.image();
-        bytes[0] = shift / 256;
-        bytes[1] = shift % 256;
-        on(bytes);
-    }
-
     private static void shifts() {
         CHECK.mine(MINE);
         CHECK.due("one shift", CHECK.x.shifts(1), 1);
@@ -46,7 +39,7 @@ public final class ActsTest {
         CHECK.due("below 0", CHECK.x.shifts(-1), -1);
         CHECK.due("above 40", CHECK.x.shifts(41), -1);
         CHECK.due("refused", CHECK.x.status(2), 3);
-        at(990);
+        CHECK.at(990);
         CHECK.due("beyond 999", CHECK.x.shifts(10), -1);
         CHECK.due("to 999", CHECK.x.shifts(9), 0);
         CHECK.due("the last shift", CHECK.x.has(5), 999);
@@ -122,7 +115,7 @@ public final class ActsTest {
         CHECK.due("the shaft's", CHECK.x.chance(1), 0);
         CHECK.due("stays open", CHECK.x.cell(0, 0, 1), 1);
         CHECK.due("three draws", CHECK.x.has(16), 1437117517);
-        at(960);
+        CHECK.at(960);
         CHECK.due("beyond 999", CHECK.x.chance(40), -1);
         CHECK.due("to 999", CHECK.x.chance(39) >= 0, true);
         CHECK.due("the shift", CHECK.x.has(5), 999);

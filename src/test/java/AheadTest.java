@@ -19,15 +19,6 @@ public final class AheadTest {
         CHECK.end();
     }
 
-    /** The mine goes on at that shift, as it is else. */
-    private static void at(int shift) {
-        int[] bytes = CHECK.image();
-        bytes[0] = shift / 256;
-        bytes[1] = shift % 256;
-        CHECK.put(Check.summed(bytes));
-        CHECK.due("on() at shift " + shift, CHECK.x.on(), true);
-    }
-
     private static void later() {
         CHECK.mine(MINE);
         for (int n = 0; n <= 40; n++) {
@@ -40,7 +31,7 @@ public final class AheadTest {
         CHECK.due("n -1", CHECK.x.later(1, 0, -1), -1);
         CHECK.due("no column", CHECK.x.later(3, 0, 0), -1);
         CHECK.due("no row", CHECK.x.later(0, -1, 0), -1);
-        at(990);
+        CHECK.at(990);
         CHECK.due("to shift 999", CHECK.x.later(1, 0, 9), 0);
         CHECK.due("beyond shift 999", CHECK.x.later(2, 2, 10), -1);
         CHECK.due("at shift 999", CHECK.x.later(2, 2, 9), 5);
@@ -55,11 +46,11 @@ public final class AheadTest {
         CHECK.due("never", CHECK.x.opens(2, 2), -1);
         CHECK.due("no column", CHECK.x.opens(3, 0), -1);
         CHECK.due("no row", CHECK.x.opens(0, 3), -1);
-        at(996);
+        CHECK.at(996);
         CHECK.due("at shift 999", CHECK.x.opens(1, 1), 3);
-        at(997);
+        CHECK.at(997);
         CHECK.due("no way to it", CHECK.x.opens(0, 2), -1);
-        at(999);
+        CHECK.at(999);
         CHECK.due("no shift comes", CHECK.x.opens(0, 1), -1);
         CHECK.due("open at shift 999", CHECK.x.opens(0, 0), 0);
         CHECK.mine("seam 3 by 3;miner a;dig a at 2 2;dig a at 0 1;falls shift<39;");
@@ -90,7 +81,7 @@ public final class AheadTest {
         CHECK.due("worth(40)", CHECK.x.worth(40), 22);
         CHECK.due("worth(41)", CHECK.x.worth(41), -1);
         CHECK.due("worth(-1)", CHECK.x.worth(-1), -1);
-        at(998);
+        CHECK.at(998);
         CHECK.due("to shift 999", CHECK.x.worth(1) > 0, true);
         CHECK.due("beyond shift 999", CHECK.x.worth(2), -1);
         CHECK.fresh();
@@ -135,7 +126,7 @@ public final class AheadTest {
         shadeIs("all are dark, the first that has none", 1, 1, 1, 30);
         CHECK.x.hang(0, 1, 0);
         shadeIs("taken down", 1, 0, 1, 30);
-        at(999);
+        CHECK.at(999);
         shadeIs("no shift comes", 1, -1, -1, -1);
         CHECK.mine("seam 3 by 3;miner a;dig a at 0 1;dig a at 1 0;");
         CHECK.x.shifts(2);
@@ -163,7 +154,7 @@ public final class AheadTest {
         CHECK.x.send(1, 0, 1, 0);
         CHECK.x.send(2, 0, 2, 2);
         changeIs("a plan told anew", 1, 0, 1, 9);
-        at(998);
+        CHECK.at(998);
         changeIs("shift 998 is of row 2", 1, 1, 2, 9);
         changeIs("beyond shift 999", 2, -1, -1, -1);
         CHECK.mine("seam 3 by 3;grade 1 0 9;miner a;dig a at 0 1;dig a at 1 0;dig a at 1 0;");
@@ -231,7 +222,7 @@ public final class AheadTest {
         CHECK.due("none such", CHECK.x.odds(3, 0), -1);
         CHECK.due("no row", CHECK.x.odds(0, 3), -1);
         CHECK.due("column -2", CHECK.x.odds(-2, 0), -1);
-        at(999);
+        CHECK.at(999);
         CHECK.due("beyond shift 999", CHECK.x.odds(0, 0), -1);
         CHECK.due("beyond shift 999, all rows", CHECK.x.odds(-1, 0), -1);
         CHECK.fresh();
@@ -292,11 +283,11 @@ public final class AheadTest {
         CHECK.x.shifts(1);
         CHECK.due("from now on", CHECK.x.reaches(), 0);
         felt(1, 2, 2, 3, 5);
-        at(997);
+        CHECK.at(997);
         CHECK.due("felt stays", CHECK.x.reaches(), ALL_REACHES);
-        at(998);
+        CHECK.at(998);
         CHECK.due("beyond shift 999", CHECK.x.reaches(), 0);
-        at(999);
+        CHECK.at(999);
         felt(1, 0, 0, 0, 255);
         CHECK.due("now, at shift 999", CHECK.x.reaches(), ALL_REACHES);
         CHECK.putText(REACHING);
@@ -326,9 +317,9 @@ public final class AheadTest {
         felt(1, 1, 0, 1, 5);
         tellsIs("none is left", -1, -1, -1);
         felt(1, 0, 0, 0, 255);
-        at(997);
+        CHECK.at(997);
         tellsIs("two shifts come: the plan's row 1 digs nothing, row 2 neither", 1, 0, 21);
-        at(999);
+        CHECK.at(999);
         tellsIs("no shift comes", -1, -1, -1);
         CHECK.putText(REACHING);
         CHECK.x.mine();

@@ -98,6 +98,8 @@ public final class ImageTest {
     }
 
     private static void refuseBytes(String what, int[] bytes) {
+        CHECK.mine(MINE);
+        CHECK.x.shifts(1);
         int[] ahead = CHECK.image();
         int acts = CHECK.x.has(15);
         int refused = CHECK.x.status(5);
@@ -111,8 +113,6 @@ public final class ImageTest {
     }
 
     private static void refused() {
-        CHECK.mine(MINE);
-        CHECK.x.shifts(1);
         refuse("shift 1000", 1, 232);
         refuse("shift above", 0, 4);
         refuse("purse 100000", 4, 160);
@@ -121,8 +121,6 @@ public final class ImageTest {
         refuse("grade 253", 16, 253);
         refuse("the shaft's solid", 6, 5);
         refuse("the shaft's curtain", 6, 254);
-        CHECK.mine(MINE);
-        CHECK.x.shifts(1);
         refuse("hurt 2", 17, 2);
         refuse("hurt 255", 18, 255);
         refuse("miner 2", 19, 2);
@@ -130,8 +128,6 @@ public final class ImageTest {
         refuse("row 4", 21, 4);
         refuse("sold 2", 26, 2);
         refuse("tubs 100", 27, 100);
-        CHECK.mine(MINE);
-        CHECK.x.shifts(1);
         refuse("tubs 255", 36, 255);
         refuse("the last byte", 37, (good()[37] + 1) % 251);
         refuse("the last byte above", 37, 255);
