@@ -465,6 +465,10 @@ public final class EdgesActsTest {
                 c.x.send((k - 1) % 16, 0, k % 7, k / 7);
             }
         }
+        for (int k = 0; k < 40; k++) {
+            c.due("shift of row " + k, c.x.kept(k, 0), k + 8);
+            c.due("cell of row " + k, c.x.kept(k, 2), 8 * ((k + 9) / 7) + (k + 9) % 7);
+        }
         c.due("the 40th", c.x.kept(39, 2), 8 * 6 + 6);
         c.due("no 41st", c.x.kept(40, 2), -1);
         c.x.undo();

@@ -164,6 +164,18 @@ public final class EdgesAheadTest {
         shade(c, "dug behind it", 2, 0, 1, 33);
     }
 
+    @Says("lets most WORTH be left behind n SHIFTS")
+    static void nothingIsLeft(Check c) {
+        c.mine(SEAM);
+        int[] changes = new int[16];
+        for (int k = 1; k < 9; k++) {
+            changes[2 * k - 2] = 5 + k;
+            changes[2 * k - 1] = k % 4 == 3 ? 255 : 0;
+        }
+        c.change(changes);
+        shade(c, "a worth of 0 is most", 20, 0, 1, 0);
+    }
+
     @Says("of like ones the first, row by row")
     static void theFirstToShade(Check c) {
         c.mine("seam 3 by 4;reach 0;");
@@ -388,6 +400,19 @@ public final class EdgesAheadTest {
         c.due("refused", c.x.status(5), 7);
         c.due("the latest stays", c.x.has(14), 16);
         c.due("the tape went", c.x.end(1), false);
+    }
+
+    @Says("The tape (it goes, refused or not) tells FELT")
+    static void bytesThatWereCut(Check c) {
+        c.mine(SEAM);
+        c.x.feed(0x000000ff, -1, -1, -1, -1);
+        c.x.end(4);
+        c.due("one row, whatever stood behind it", c.x.feel(), 1);
+        c.due("all are left", c.x.reaches(), ALL_REACHES);
+        c.x.feed(0x000000ff, 0x01000000, 0, 0, 0);
+        c.x.end(4);
+        c.due("one row alone", c.x.feel(), 1);
+        c.due("all are left", c.x.reaches(), ALL_REACHES);
     }
 
     @Says("FELT are rows of SHIFTS AHEAD (0 .. 30), column, row, the GRADE of a CELL behind these (255: it is OPEN)")

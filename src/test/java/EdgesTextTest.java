@@ -160,11 +160,37 @@ public final class EdgesTextTest {
         c.due("his name", c.x.letter(0, 0, 0), 2);
         c.due("no order", c.x.has(4), 0);
         c.due("a plan of its own", c.x.has(3), 4);
-        c.due("quake 0", c.x.odds(0, 1), 4900);
         c.due("nothing falls, gets tells the grade", c.x.shifts(4), 4);
+        c.due("quake 0", c.x.odds(0, 4), 4900);
         c.due("grade 5 of the first", c.x.kept(0, 3), 5);
         c.due("spoils 1", c.x.cell(1, 0, 0), 1);
         c.due("reach 3", c.x.has(7), 4);
+    }
+
+    @Says("The tape (it goes, refused or not) is THE MINE")
+    static void oneLongTextBehindAnother(Check c) {
+        String text = SEAM + "miner a;dig a at 0 1;gets 3" + "+1-1".repeat(380) + ";";
+        for (int k = 0; k < 4; k++) {
+            c.putText(text);
+            c.due("mine()", c.x.mine(), 4);
+            c.due("a tub", c.x.shifts(1), 1);
+            c.due("of the grade that its rule tells", c.x.kept(0, 3), 3);
+        }
+    }
+
+    @Says("The tape has its first n bytes alone")
+    static void whatIsCutIsGone(Check c) {
+        c.putText(SEAM + "reach 21;");
+        c.x.end(12);
+        c.due("no byte behind them", c.x.mine(), 1);
+        c.putText(SEAM + "shaft 11;");
+        c.x.end(19);
+        c.due("nor within a number", c.x.mine(), -1);
+        c.due("at the length", c.x.fault(1), 19);
+        c.putText(SEAM + "shafts 1;");
+        c.x.end(17);
+        c.due("nor within a word", c.x.mine(), -1);
+        c.due("at the length", c.x.fault(1), 17);
     }
 
     @Says("its FAULT (what 0; 0 without, and ahead of any), its place (1; NONE without). NONE for another what")
@@ -199,7 +225,8 @@ public final class EdgesTextTest {
         String eighty = SEAM + "miner a;spoils 1;falls all;gets 1;" + "quake 1;".repeat(75);
         c.good(80, eighty);
         for (String one : new String[] {"quake 1;", "quake 101;", "seam 3 by 3;", "miner a;", "miner b;", "dig b at 0 0;",
-            "spoils 1;", "falls all;", "gets 1;", "gets ((((((((1))))))));", "reach", "order"}) {
+            "spoils 1;", "falls all;", "gets 1;", "gets ((((((((1))))))));", "reach", "order", "abcdefgh", "12345", "x", ";",
+            "!"}) {
             c.faultAt(6, eighty + "^" + one);
             c.faultAt(6, eighty + "\n ^" + one);
         }
@@ -433,6 +460,10 @@ public final class EdgesTextTest {
         c.faultAt(1, "seam 1234^5 by 3;");
         c.faultAt(1, SEAM + "gets 1000^00;");
         c.faultAt(1, SEAM + "falls 1=9999^9;");
+        for (char sign : new char[] {47, 58, 176}) {
+            c.faultAt(1, SEAM + "shaft ^" + sign + ";");
+            c.faultAt(1, SEAM + "shaft 1^" + sign + ";");
+        }
     }
 
     @Says("a 7th letter, a 5th digit at itself, whatever may stand there")
@@ -509,6 +540,62 @@ public final class EdgesTextTest {
         c.faultAt(1, SEAM + "gets 1 ^1234;");
         c.faultAt(1, SEAM + "falls 1=1 ^andy 1=1;");
         c.faultAt(1, SEAM + "falls ^al;");
+    }
+
+    @Says("1 the first byte with which no MINE goes on")
+    static void everyByteWhereAPartMustBe(Check c) {
+        for (int octet = 0; octet < 256; octet++) {
+            char b = (char) octet;
+            String ahead = SEAM + "gets ";
+            if (b >= '0' && b <= '9') {
+                c.good(2, ahead + b + ";");
+            } else if (b == ' ' || b == '\n' || b == '(') {
+                c.faultAt(1, ahead + b + "^;");
+            } else {
+                c.faultAt(1, ahead + "^" + b + ";");
+            }
+        }
+    }
+
+    @Says("1 the first byte with which no MINE goes on")
+    static void everyByteWhereASignMustBe(Check c) {
+        for (int octet = 0; octet < 256; octet++) {
+            char b = (char) octet;
+            String ahead = SEAM + "falls 1";
+            if (b == '<' || b == '>' || b == '=') {
+                c.good(2, ahead + b + "1;");
+            } else if ("+-*/%".indexOf(b) >= 0 || b >= '0' && b <= '9') {
+                c.faultAt(1, ahead + b + "1^;");
+            } else if (b == ' ' || b == '\n') {
+                c.faultAt(1, ahead + b + "^1;");
+            } else {
+                c.faultAt(1, ahead + "^" + b + "1;");
+            }
+        }
+    }
+
+    @Says("1 the first byte with which no MINE goes on")
+    static void everyByteWhereAStatementMustBe(Check c) {
+        for (int octet = 0; octet < 256; octet++) {
+            char b = (char) octet;
+            if (b == ' ' || b == '\n') {
+                c.good(1, SEAM + b);
+            } else {
+                c.faultAt(1, SEAM + "^" + b);
+            }
+        }
+    }
+
+    @Says("1 the first byte with which no MINE goes on")
+    static void aNumberIsNoSign(Check c) {
+        c.faultAt(1, "seam 3 by 3 ^" + (int) ';');
+        c.faultAt(1, SEAM + "gets min ^" + (int) '(' + " 1,1);");
+        c.faultAt(1, SEAM + "gets (1 ^" + (int) ')' + ";");
+        c.faultAt(1, SEAM + "gets min(1 ^" + (int) ',' + " 1);");
+        c.faultAt(1, SEAM + "gets 1 ^" + (int) '+' + " 1;");
+        c.faultAt(1, SEAM + "gets 1 ^" + (int) '*' + " 1;");
+        c.faultAt(1, SEAM + "falls 1 ^" + (int) '<' + " 1;");
+        c.faultAt(1, SEAM + "falls [all ^" + (int) ']' + ";");
     }
 
     @Says("at the text's length, if it ends too soon")
