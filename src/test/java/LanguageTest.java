@@ -23,6 +23,9 @@ public final class LanguageTest {
     private static final String[] FORBIDDEN = {"throw", "throws", "try", "catch", "finally", "synchronized", "assert",
         "volatile", "native", "->", "::", "new Object", "Random", "Thread", "Exact", "hashCode", "toString",
         "String.format", "System.out", "System.currentTimeMillis", "System.nanoTime", "import static", "package"};
+    private static final Set<String> LIBRARY = new TreeSet<>(Arrays.asList("Arrays.fill", "Arrays.copyOf",
+        "Arrays.copyOfRange", "System.arraycopy", "Math.min", "Math.max", "Math.abs", "Math.floorDiv", "Math.floorMod",
+        "Integer.bitCount", "Integer.compare"));
     private static final Check CHECK = new Check();
 
     public static void main(String[] args) throws IOException {
@@ -44,8 +47,9 @@ public final class LanguageTest {
             String name = m.getReturnType() + " " + m.getName() + " " + m.getParameterCount();
             if (Modifier.isPublic(m.getModifiers())) {
                 methods.add(name);
-            } else if (!Modifier.isPrivate(m.getModifiers())) {
-                wrong("a member that is neither public nor private: " + name);
+            } else {
+                CHECK.due("private: " + name, Modifier.isPrivate(m.getModifiers()), true);
+                CHECK.due("a name of the face: " + m, isOfFace(m), false);
             }
         }
         if (!methods.equals(FACE)) {
@@ -62,12 +66,16 @@ public final class LanguageTest {
         }
     }
 
+    private static boolean isOfFace(Method m) {
+        return FACE.stream().anyMatch(f -> f.split(" ")[1].equals(m.getName()));
+    }
+
     private static void nested() {
         CHECK.due("at most twelve classes", DarkMine.class.getDeclaredClasses().length <= 12, true);
         for (Class<?> c : DarkMine.class.getDeclaredClasses()) {
             CHECK.due("static: " + c, Modifier.isStatic(c.getModifiers()) && !Modifier.isPublic(c.getModifiers()), true);
             for (Method m : c.getDeclaredMethods()) {
-                CHECK.due("a name of the face: " + m, FACE.stream().anyMatch(f -> f.split(" ")[1].equals(m.getName())), false);
+                CHECK.due("a name of the face: " + m, isOfFace(m), false);
                 CHECK.due("parameters of " + m, m.getParameterCount() <= 7, true);
             }
             int fields = 0;
@@ -100,6 +108,12 @@ public final class LanguageTest {
         while (imports.find()) {
             if (!imports.group(1).matches("java\\.util\\.(Arrays|ArrayList|List|Iterator)")) {
                 wrong("import " + imports.group(1));
+            }
+        }
+        Matcher library = Pattern.compile("\\b(Arrays|System|Math|Integer|Long|String|List)\\.(\\w+)").matcher(code);
+        while (library.find()) {
+            if (!LIBRARY.contains(library.group())) {
+                wrong("of the library: " + library.group());
             }
         }
         if (code.contains("\"\" +") || code.contains("+ \"\"")) {
